@@ -13,9 +13,12 @@ public final class ModelTest {
     private final StringBuilder story = new StringBuilder();
     private final int mostPupils;
     private final int mostProjects;
+    /** Most PUPILS have long rows of WISHES, few PROJECTS have conditions: so there is more to share out. */
+    private final boolean lively;
     private int calls;
 
     private ModelTest(Checks checks, long seed, int mostPupils, int mostProjects) {
+        this.lively = seed % 2 == 1;
         this.checks = checks;
         this.random = new Random(seed);
         this.mostPupils = mostPupils;
@@ -23,12 +26,14 @@ public final class ModelTest {
     }
 
     public static void main(String[] args) {
-        int runs = args.length > 0 ? Integer.parseInt(args[0]) : 600;
+        int runs = args.length > 0 ? Integer.parseInt(args[0]) : 2000;
         long first = args.length > 1 ? Long.parseLong(args[1]) : 0;
         Checks checks = new Checks("ModelTest");
         for (long seed = first; seed < first + runs && !checks.failed(); seed++) {
             boolean large = seed % 60 == 59;
-            new ModelTest(checks, seed, large ? 8 : 2 + (int) (seed % 5), large ? 4 : 1 + (int) (seed % 7) % 5).run(large ? 60 : CALLS);
+            int pupils = large ? 8 : 2 + (int) (seed % 5);
+            int projects = large ? 4 : 1 + (int) (seed % 7 * 3) % 5;
+            new ModelTest(checks, seed, pupils, projects).run(large ? 60 : CALLS);
         }
         checks.end();
     }
@@ -44,16 +49,16 @@ public final class ModelTest {
     }
 
     private void begin() {
-        int pupils = random.nextInt(mostPupils) + 1;
+        int pupils = lively ? mostPupils : random.nextInt(mostPupils) + 1;
         for (int i = 0; i < pupils; i++) {
             addPupil();
         }
-        int projects = random.nextInt(mostProjects) + 1;
+        int projects = lively ? mostProjects : random.nextInt(mostProjects) + 1;
         for (int i = 0; i < projects; i++) {
             addProject();
         }
         for (int p = 0; p < pupils; p++) {
-            int rows = random.nextInt(4);
+            int rows = lively ? 5 : random.nextInt(4);
             for (int i = 0; i < rows; i++) {
                 wish(p, random.nextInt(mostProjects));
             }
@@ -69,6 +74,12 @@ public final class ModelTest {
 
     private void addProject() {
         if (m.count(1) >= mostProjects && mostProjects < 5) {
+            return;
+        }
+        if (lively && random.nextInt(4) > 0) {
+            int size = 1 + random.nextInt(3);
+            int twice = random.nextInt(4) == 0 ? 2 : 0;
+            same("project(" + twice + ", 1, " + size + ", 0, 0)", x.project(twice, 1, size, 0, 0), m.project(twice, 1, size, 0, 0));
             return;
         }
         int kind = random.nextInt(20) == 0 ? random.nextInt(8) - 2 : random.nextInt(4);
@@ -119,16 +130,21 @@ public final class ModelTest {
         } else if (kind < 19) {
             same("friends(" + p + ", " + other + ", " + is + ")", x.friends(p, other, is), m.friends(p, other, is));
         } else if (kind < 22) {
-            boolean are = random.nextInt(3) == 0;
+            boolean are = random.nextInt(lively ? 6 : 3) == 0;
             same("apart(" + p + ", " + other + ", " + are + ")", x.apart(p, other, are), m.apart(p, other, are));
-        } else if (kind < 26) {
+        } else if (kind < 24 || kind < 26 && !lively) {
             same("here(" + p + ", " + is + ")", x.here(p, is), m.here(p, is));
-        } else if (kind < 29) {
+        } else if (kind < 26 || kind < 29 && !lively) {
             same("offered(" + q + ", " + is + ")", x.offered(q, is), m.offered(q, is));
         } else if (kind < 32) {
             int seed = random.nextInt();
             same("lots(" + seed + ")", x.lots(seed), m.lots(seed));
             sweep(6);
+        } else if (kind < 34) {
+            for (int all = 0; all < m.count(0); all++) {
+                int to = someProject();
+                same("put(" + all + ", " + to + ")", x.put(all, to), m.put(all, to));
+            }
         } else {
             int to = random.nextInt(10) == 0 ? -1 : q;
             same("put(" + p + ", " + to + ")", x.put(p, to), m.put(p, to));
@@ -140,6 +156,13 @@ public final class ModelTest {
         int n = random.nextInt(8) == 0 ? random.nextInt(30) - 4 : 1 + random.nextInt(6);
         int f = random.nextInt(5) == 0 ? random.nextInt(4) * 256 + random.nextInt(4) : random.nextInt(5);
         int step = random.nextInt(8) == 0 ? random.nextInt() : random.nextInt(5) - 2 + 256 * random.nextInt(2);
+        if (lively && random.nextInt(2) == 0) {
+            same("wishes(" + p + ", 2, 0, 0, 0)", x.wishes(p, 2, 0, 0, 0), m.wishes(p, 2, 0, 0, 0));
+            for (int i = 0; i < 4; i++) {
+                wish(p, random.nextInt(mostProjects));
+            }
+            return;
+        }
         same("wishes(" + p + ", " + kind + ", " + n + ", " + f + ", " + step + ")",
             x.wishes(p, kind, n, f, step), m.wishes(p, kind, n, f, step));
     }
