@@ -715,28 +715,21 @@ public final class WishSharer {
 
         void fill(Roll roll) {
             int present = roll.presentBits();
-            // Downward, for a group's larger ones are to stand before it is asked what it can grow to.
+            // Downward, for a group's larger ones must stand before it is told what it can grow to.
             for (int group = fitting.length - 1; group >= 0; group--) {
-                if ((group & ~present) == 0) {
-                    fillGroup(roll, group, present);
+                boolean allPresent = (group & ~present) == 0;
+                int projects = 0;
+                for (int q = 0; allPresent && q < roll.projectCount; q++) {
+                    if (roll.allows(q, group)) {
+                        projects |= 1 << q;
+                    }
+                }
+                fitting[group] = projects;
+                open[group] = projects;
+                for (int p = 0; p < MOST_PUPILS; p++) {
+                    open[group] |= open[group | 1 << p];
                 }
             }
-        }
-
-        private void fillGroup(Roll roll, int group, int present) {
-            int projects = 0;
-            for (int q = 0; q < roll.projectCount; q++) {
-                if (roll.allows(q, group)) {
-                    projects |= 1 << q;
-                }
-            }
-            fitting[group] = projects;
-            for (int p = 0; p < MOST_PUPILS; p++) {
-                if ((present & ~group & 1 << p) != 0) {
-                    projects |= open[group | 1 << p];
-                }
-            }
-            open[group] = projects;
         }
 
         boolean fits(int project, int group) {
@@ -820,6 +813,8 @@ public final class WishSharer {
 
     /** Goes through the RIGHT PLANS, one PUPIL that is HERE after the other. */
     private static final class Search {
+        private static final long ABOVE_ALL = 1L << 62;
+
         private final Groups groups = new Groups();
         private final Scale scale = new Scale();
         private final int[] friendBits = new int[MOST_PUPILS];
@@ -856,12 +851,12 @@ public final class WishSharer {
         }
 
         boolean findBest() {
-            begin(Long.MAX_VALUE, Long.MAX_VALUE, true);
+            begin(ABOVE_ALL, ABOVE_ALL, true);
             return hits > 0;
         }
 
         int countRight() {
-            begin(Long.MAX_VALUE, Long.MAX_VALUE, false);
+            begin(ABOVE_ALL, ABOVE_ALL, false);
             return hits;
         }
 
