@@ -5,6 +5,8 @@ import java.util.Random;
 public final class ModelTest {
     private static final int CALLS = 512;
     private static final int NO_SUCH = Integer.MIN_VALUE;
+    private static final int[] ODD = {-2, -1, 5, 6, 7, 8, 9, 31, 32, 33, 255, 256, -255, -256, 1 << 30, -(1 << 30),
+        Integer.MAX_VALUE, Integer.MAX_VALUE - 1, Integer.MIN_VALUE, Integer.MIN_VALUE + 1};
 
     private final Checks checks;
     private final Random random;
@@ -66,7 +68,7 @@ public final class ModelTest {
     }
 
     private void addPupil() {
-        int skills = random.nextInt(20) == 0 ? random.nextInt(600) - 300 : random.nextInt(256);
+        int skills = random.nextInt(20) == 0 ? odd() : random.nextInt(256);
         if (m.count(0) < mostPupils || mostPupils == 8 || skills < 0 || skills > 255) {
             same("pupil(" + skills + ")", x.pupil(skills), m.pupil(skills));
         }
@@ -82,11 +84,11 @@ public final class ModelTest {
             same("project(" + twice + ", 1, " + size + ", 0, 0)", x.project(twice, 1, size, 0, 0), m.project(twice, 1, size, 0, 0));
             return;
         }
-        int kind = random.nextInt(20) == 0 ? random.nextInt(8) - 2 : random.nextInt(4);
-        int least = random.nextInt(20) == 0 ? random.nextInt(12) - 1 : 1 + random.nextInt(2);
-        int most = random.nextInt(10) == 0 ? random.nextInt(12) - 1 : least + random.nextInt(4);
-        int skills = random.nextInt(3) == 0 ? 1 << random.nextInt(8) : random.nextInt(10) == 0 ? random.nextInt(400) - 80 : 0;
-        int leader = random.nextInt(10) - 1;
+        int kind = random.nextInt(20) == 0 ? odd() : random.nextInt(4);
+        int least = random.nextInt(20) == 0 ? odd() : 1 + random.nextInt(2);
+        int most = random.nextInt(20) == 0 ? odd() : least + random.nextInt(4);
+        int skills = random.nextInt(3) == 0 ? 1 << random.nextInt(8) : random.nextInt(10) == 0 ? odd() : 0;
+        int leader = random.nextInt(10) == 0 ? odd() : random.nextInt(Math.max(1, m.count(0)));
         same("project(" + kind + ", " + least + ", " + most + ", " + skills + ", " + leader + ")",
             x.project(kind, least, most, skills, leader), m.project(kind, least, most, skills, leader));
     }
@@ -95,12 +97,16 @@ public final class ModelTest {
         same("wish(" + p + ", " + q + ")", x.wish(p, q), m.wish(p, q));
     }
 
+    private int odd() {
+        return ODD[random.nextInt(ODD.length)];
+    }
+
     private int somePupil() {
-        return random.nextInt(12) == 0 ? random.nextInt(12) - 2 : random.nextInt(Math.max(1, m.count(0)));
+        return random.nextInt(12) == 0 ? odd() : random.nextInt(Math.max(1, m.count(0)));
     }
 
     private int someProject() {
-        return random.nextInt(12) == 0 ? random.nextInt(9) - 2 : random.nextInt(Math.max(1, m.count(1)));
+        return random.nextInt(12) == 0 ? odd() : random.nextInt(Math.max(1, m.count(1)));
     }
 
     private void step() {
@@ -153,7 +159,7 @@ public final class ModelTest {
 
     private void changeSheet(int p) {
         int kind = random.nextInt(15) == 0 ? random.nextInt(6) - 1 : random.nextInt(2);
-        int n = random.nextInt(8) == 0 ? random.nextInt(30) - 4 : 1 + random.nextInt(6);
+        int n = random.nextInt(8) == 0 ? random.nextInt(3) == 0 ? odd() : random.nextInt(30) - 4 : 1 + random.nextInt(6);
         int f = random.nextInt(5) == 0 ? random.nextInt(4) * 256 + random.nextInt(4) : random.nextInt(5);
         int step = random.nextInt(8) == 0 ? random.nextInt() : random.nextInt(5) - 2 + 256 * random.nextInt(2);
         if (lively && random.nextInt(2) == 0) {
@@ -168,7 +174,7 @@ public final class ModelTest {
     }
 
     private void askSomething(int kind) {
-        int what = random.nextInt(12) - 2;
+        int what = random.nextInt(10) == 0 ? odd() : random.nextInt(9) - 1;
         if (kind < 45) {
             same("count(" + what + ")", x.count(what), m.count(what));
         } else if (kind < 49) {
@@ -178,11 +184,11 @@ public final class ModelTest {
             int q = someProject();
             same("rank(" + p + ", " + q + ")", x.rank(p, q), m.rank(p, q));
         } else if (kind < 56) {
-            int y = random.nextInt(Math.max(1, m.count(3)) + 3) - 1;
+            int y = random.nextInt(10) == 0 ? odd() : random.nextInt(m.count(3) + 2) - 1;
             int p = somePupil();
             same("year(" + y + ", " + p + ")", x.year(y, p), m.year(y, p));
         } else {
-            askRow(random.nextInt(8) - 1);
+            askRow(random.nextInt(5) == 0 ? odd() : random.nextInt(6));
         }
     }
 
@@ -225,10 +231,10 @@ public final class ModelTest {
             same("best()", x.best(), m.best());
             sweep(4);
         } else if (kind < 73) {
-            int what = random.nextInt(10) == 0 ? random.nextInt(6) - 2 : random.nextInt(2);
+            int what = random.nextInt(10) == 0 ? odd() : random.nextInt(2);
             same("plans(" + what + ")", x.plans(what), m.plans(what));
         } else if (kind < 79) {
-            int what = random.nextInt(12) - 1;
+            int what = random.nextInt(10) == 0 ? odd() : random.nextInt(11);
             same("worth(" + what + ")", x.worth(what), m.worth(what));
         } else if (kind < 84) {
             same("swap()", x.swap(), m.swap());
