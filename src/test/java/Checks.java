@@ -1,5 +1,3 @@
-import java.util.NoSuchElementException;
-
 /** Counts answers that are not as due, and prints them. */
 final class Checks {
     private final String title;
@@ -20,26 +18,6 @@ final class Checks {
 
     void same(String what, boolean got, boolean due) {
         same(what, got ? 1 : 0, due ? 1 : 0);
-    }
-
-    void noOf(WishSharer x, int pupil, int what) {
-        boolean thrown = false;
-        try {
-            x.of(pupil, what);
-        } catch (NoSuchElementException e) {
-            thrown = true;
-        }
-        same("of(" + pupil + ", " + what + ") throws", thrown, true);
-    }
-
-    void noRow(WishSharer x, int i) {
-        boolean thrown = false;
-        try {
-            x.row(i);
-        } catch (NoSuchElementException e) {
-            thrown = true;
-        }
-        same("row(" + i + ") throws", thrown, true);
     }
 
     boolean failed() {

@@ -1,14 +1,12 @@
 /** Each promise of the document by hand: ordinary inputs, the edges that it names, wrong inputs. */
-public final class PromiseTest {
-    private static final int LEAST_INT = Integer.MIN_VALUE;
-    private static final int MOST_INT = Integer.MAX_VALUE;
-
-    private Checks checks;
+public final class PromiseTest extends Bench {
+    private PromiseTest(Checks checks) {
+        super(checks);
+    }
 
     public static void main(String[] args) {
         Checks all = new Checks("PromiseTest");
-        PromiseTest test = new PromiseTest();
-        test.checks = all;
+        PromiseTest test = new PromiseTest(all);
         test.promises1To5();
         test.promises6To10();
         test.promises11To15();
@@ -73,62 +71,6 @@ public final class PromiseTest {
         row();
     }
 
-    private void due(String what, long got, long want) {
-        checks.same(what, got, want);
-    }
-
-    private void yes(String what, boolean got) {
-        checks.same(what, got, true);
-    }
-
-    private void no(String what, boolean got) {
-        checks.same(what, got, false);
-    }
-
-    /** So many PUPILS without SKILLS. */
-    private static WishSharer withPupils(int pupils) {
-        WishSharer x = new WishSharer();
-        for (int p = 0; p < pupils; p++) {
-            x.pupil(0);
-        }
-        return x;
-    }
-
-    /** So many PUPILS without SKILLS, so many plain PROJECTS of a size from 1 to the most. */
-    private static WishSharer with(int pupils, int projects, int most) {
-        WishSharer x = withPupils(pupils);
-        for (int q = 0; q < projects; q++) {
-            x.project(0, 1, most, 0, 0);
-        }
-        return x;
-    }
-
-    private static void wishAll(WishSharer x, int pupil, int... projects) {
-        for (int q : projects) {
-            x.wish(pupil, q);
-        }
-    }
-
-    private static void putAll(WishSharer x, int... projects) {
-        for (int p = 0; p < projects.length; p++) {
-            x.put(p, projects[p]);
-        }
-    }
-
-    private void planIs(String when, WishSharer x, int... projects) {
-        for (int p = 0; p < projects.length; p++) {
-            due(when + " of(" + p + ", 4)", x.of(p, 4), projects[p]);
-        }
-    }
-
-    private void rowIs(String when, WishSharer x, int... numbers) {
-        due(when + " count(4)", x.count(4), numbers.length);
-        for (int i = 0; i < numbers.length; i++) {
-            due(when + " row(" + i + ")", x.row(i), numbers[i]);
-        }
-        checks.noRow(x, numbers.length);
-    }
-
     // ---- 1 to 5
 
     private void newObject() {
@@ -142,8 +84,8 @@ public final class PromiseTest {
         due("1 wrong", x.wrong(), 0);
         due("1 best", x.best(), 1);
         due("1 plans", x.plans(0), 1);
-        checks.noOf(x, 0, 0);
-        checks.noRow(x, 0);
+        noOf(x, 0, 0);
+        noRow(x, 0);
     }
 
     private void pupil() {
@@ -377,11 +319,11 @@ public final class PromiseTest {
         due("12 no rank", x.of(0, 5), 0);
         x.put(0, 0);
         due("12 not wished", x.of(0, 5), 6);
-        checks.noOf(x, 2, 0);
-        checks.noOf(x, -1, 0);
-        checks.noOf(x, 0, -1);
-        checks.noOf(x, 0, 7);
-        checks.noOf(x, LEAST_INT, MOST_INT);
+        noOf(x, 2, 0);
+        noOf(x, -1, 0);
+        noOf(x, 0, -1);
+        noOf(x, 0, 7);
+        noOf(x, LEAST_INT, MOST_INT);
     }
 
     private void rank() {
@@ -1007,16 +949,16 @@ public final class PromiseTest {
 
     private void row() {
         WishSharer x = with(2, 2, 1);
-        checks.noRow(x, 0);
-        checks.noRow(x, -1);
+        noRow(x, 0);
+        noRow(x, -1);
         wishAll(x, 0, 1, 0);
         wishAll(x, 1, 0, 1);
         putAll(x, 0, 1);
         x.swap();
         rowIs("25", x, 0, 1);
-        checks.noRow(x, -1);
-        checks.noRow(x, LEAST_INT);
-        checks.noRow(x, MOST_INT);
+        noRow(x, -1);
+        noRow(x, LEAST_INT);
+        noRow(x, MOST_INT);
         x.best();
         x.book();
         x.undo();

@@ -1,0 +1,739 @@
+/** Cases of promises 14 to 21, plans: a case a sentence, told by its name. */
+final class EdgesOfPlans extends Bench {
+    private static final int EVERY = 390625;
+
+    EdgesOfPlans(Checks checks) {
+        super(checks);
+    }
+
+    // ---- 14: put
+
+    void p14_pupil_firstAndLastTaken() {
+        WishSharer x = with(8, 1, 8);
+        yes("put(0, 0)", x.put(0, 0));
+        yes("put(7, 0)", x.put(7, 0));
+        planIs("both", x, 0, NONE, NONE, NONE, NONE, NONE, NONE, 0);
+    }
+
+    void p14_pupil_noneSuchRefused() {
+        WishSharer x = with(3, 1, 8);
+        int[] none = {-1, 3, 8, LEAST_INT, MOST_INT};
+        for (int p : none) {
+            no("put(" + p + ", 0)", x.put(p, 0));
+            no("put(" + p + ", -1)", x.put(p, NONE));
+        }
+        no("put(8, 0) of eight", with(8, 1, 8).put(8, 0));
+    }
+
+    void p14_project_noneFirstAndLastTaken() {
+        WishSharer x = with(1, 5, 8);
+        yes("put(0, 4)", x.put(0, 4));
+        planIs("4", x, 4);
+        yes("put(0, 0)", x.put(0, 0));
+        planIs("0", x, 0);
+        yes("put(0, -1)", x.put(0, NONE));
+        planIs("none", x, NONE);
+    }
+
+    void p14_project_minus2AndOneAboveRefused() {
+        WishSharer x = with(1, 2, 8);
+        x.put(0, 1);
+        int[] none = {-2, 2, 5, LEAST_INT, MOST_INT};
+        for (int q : none) {
+            no("put(0, " + q + ")", x.put(0, q));
+        }
+        planIs("it stays", x, 1);
+        no("put(0, 5) of five", with(1, 5, 8).put(0, 5));
+    }
+
+    void p14_itNeedNotBeRight() {
+        WishSharer x = with(2, 1, 1);
+        x.here(0, false);
+        x.offered(0, false);
+        x.apart(0, 1, true);
+        yes("put(0, 0)", x.put(0, 0));
+        yes("put(1, 0)", x.put(1, 0));
+        planIs("both", x, 0, 0);
+    }
+
+    void p14_refusedChangesNothing() {
+        changesNothing(Bench::some, x -> {
+            x.put(4, 0);
+            x.put(-1, 0);
+            x.put(0, 4);
+            x.put(0, -2);
+        });
+    }
+
+    // ---- 15: wrong
+
+    void p15_right0() {
+        due("of nothing", new WishSharer().wrong(), 0);
+        WishSharer x = with(8, 1, 8);
+        putEach(x, 8, 0);
+        due("of eight", x.wrong(), 0);
+    }
+
+    void p15_least10_most76() {
+        WishSharer x = with(8, 1, 8);
+        due("WRONG 1 of PUPIL 0", x.wrong(), 10);
+        putEach(x, 8, 0);
+        x.apart(6, 7, true);
+        due("WRONG 7 of PUPIL 6", x.wrong(), 76);
+    }
+
+    void p15_changesNothing() {
+        changesNothing(Bench::some, WishSharer::wrong);
+        changesNothing(Bench::full, WishSharer::wrong);
+    }
+
+    // ---- 16: best
+
+    void p16_ofNothing_thereIsOne() {
+        due("best()", new WishSharer().best(), 1);
+    }
+
+    void p16_ofNobodyHere_noneHasAProject() {
+        WishSharer x = with(2, 1, 1);
+        putAll(x, 0, 0);
+        x.here(0, false);
+        x.here(1, false);
+        due("best()", x.best(), 1);
+        planIs("none", x, NONE, NONE);
+    }
+
+    void p16_noProjects_thereIsNone() {
+        due("best()", withPupils(1).best(), 0);
+    }
+
+    void p16_noneOffered_thereIsNone_itStays() {
+        WishSharer x = with(2, 2, 2);
+        putAll(x, 1, NONE);
+        x.offered(0, false);
+        x.offered(1, false);
+        due("best()", x.best(), 0);
+        planIs("it stays", x, 1, NONE);
+    }
+
+    void p16_asManyPlacesAsPupils_oneLessThereIsNone() {
+        WishSharer x = with(5, 5, 1);
+        due("five for five", x.best(), 1);
+        planIs("each one", x, 0, 1, 2, 3, 4);
+        x.offered(4, false);
+        due("four for five", x.best(), 0);
+        planIs("it stays", x, 0, 1, 2, 3, 4);
+        x.here(2, false);
+        due("four for four", x.best(), 1);
+        planIs("each one", x, 0, 1, NONE, 2, 3);
+    }
+
+    void p16_ofEightAndFive() {
+        WishSharer x = with(8, 5, 2);
+        due("best()", x.best(), 1);
+        planIs("two each", x, 0, 0, 1, 1, 2, 2, 3, 3);
+        due("none better", x.plans(1), 0);
+    }
+
+    void p16_onlyTheLastPlanOfAllIsRight() {
+        WishSharer x = withPupils(8);
+        for (int q = 0; q < 5; q++) {
+            x.project(0, 8, 8, 0, 0);
+            x.offered(q, q == 4);
+        }
+        due("plans(0)", x.plans(0), 1);
+        due("best()", x.best(), 1);
+        planIs("all in the last", x, 4, 4, 4, 4, 4, 4, 4, 4);
+    }
+
+    void p16_none_changesNothing() {
+        changesNothing(EdgesOfPlans::withoutAnyRightPlan, WishSharer::best);
+    }
+
+    /** Some of everything, and two who can't be together in the one PROJECT that is left. */
+    private static WishSharer withoutAnyRightPlan() {
+        WishSharer x = some();
+        x.offered(1, false);
+        x.offered(2, false);
+        x.offered(3, false);
+        return x;
+    }
+
+    // ---- 17: plans
+
+    void p17_what_0And1Taken_minus1And2Refused() {
+        WishSharer x = with(1, 2, 1);
+        due("0", x.plans(0), 2);
+        due("1", x.plans(1), 2);
+        due("-1", x.plans(-1), NONE);
+        due("2", x.plans(2), NONE);
+        due("least", x.plans(LEAST_INT), NONE);
+        due("most", x.plans(MOST_INT), NONE);
+    }
+
+    void p17_ofNothing() {
+        WishSharer x = new WishSharer();
+        due("right", x.plans(0), 1);
+        due("better", x.plans(1), 0);
+    }
+
+    void p17_nobodyHere_one() {
+        WishSharer x = with(8, 5, 8);
+        for (int p = 0; p < 8; p++) {
+            x.here(p, false);
+        }
+        due("right", x.plans(0), 1);
+        due("better", x.plans(1), 0);
+    }
+
+    void p17_noneRight() {
+        WishSharer x = with(2, 1, 1);
+        due("right", x.plans(0), 0);
+        due("better", x.plans(1), 0);
+    }
+
+    void p17_allOfEightAndFive() {
+        WishSharer x = with(8, 5, 8);
+        due("right", x.plans(0), EVERY);
+        due("better than none", x.plans(1), EVERY);
+        putEach(x, 8, 4);
+        due("better than the worst", x.plans(1), EVERY - 1);
+        putEach(x, 8, 0);
+        due("better than the best", x.plans(1), 0);
+        x.put(7, 1);
+        due("better than the second", x.plans(1), 1);
+    }
+
+    void p17_theBest_noneBetter() {
+        WishSharer x = some();
+        x.best();
+        due("better", x.plans(1), 0);
+        WishSharer y = full();
+        y.best();
+        due("better", y.plans(1), 0);
+    }
+
+    void p17_planThatIsNotRight_allMayBeWorse() {
+        WishSharer x = with(2, 2, 1);
+        wishAll(x, 0, 0);
+        wishAll(x, 1, 0);
+        putAll(x, 0, 0);
+        due("wrong()", x.wrong(), 40);
+        due("right", x.plans(0), 2);
+        due("better", x.plans(1), 0);
+    }
+
+    void p17_planThatIsNotRight_inOneNotOffered() {
+        WishSharer x = with(1, 2, 1);
+        wishAll(x, 0, 1, 0);
+        x.put(0, 1);
+        x.offered(1, false);
+        due("RANK 1, not offered", x.plans(1), 0);
+        x.wishes(0, 1, 2, 0, 1);
+        due("RANK 2, not offered", x.plans(1), 1);
+    }
+
+    void p17_none_countsAsRank6() {
+        WishSharer x = with(2, 5, 1);
+        wishAll(x, 0, 0, 1, 2, 3, 4);
+        x.wishes(1, 1, 5, 4, -1);
+        putAll(x, 0, NONE);
+        // No PLAN has a 6.
+        due("all are better", x.plans(1), 20);
+        x.wishes(1, 2, 0, 0, 0);
+        putAll(x, 0, NONE);
+        due("as many 6, RANK 1: only the number", x.plans(1), 4);
+    }
+
+    void p17_none_isAGreaterNumberThanAny() {
+        WishSharer x = with(1, 5, 1);
+        due("all five are less", x.plans(1), 5);
+        x.put(0, 4);
+        due("four are less than the last", x.plans(1), 4);
+    }
+
+    void p17_none_griefOf6TimesScoreAnd1() {
+        WishSharer x = with(2, 2, 1);
+        x.here(1, false);
+        x.put(0, 0);
+        x.book();
+        x.here(1, true);
+        wishAll(x, 1, 0, 1);
+        // 6 * 6 and 1 for none and PROJECT 0; 6 * 6 and 2 for 0 and 1.
+        putAll(x, NONE, 0);
+        due("1 and 0 is less by number", x.plans(1), 1);
+        putAll(x, NONE, 1);
+        due("both are better", x.plans(1), 2);
+    }
+
+    void p17_none_noFriendsOfOthersWithNone() {
+        WishSharer x = with(2, 1, 2);
+        x.friends(0, 1, true);
+        due("together is better", x.plans(1), 1);
+    }
+
+    void p17_notHere_whatTheyHaveDoesNotCount() {
+        WishSharer x = with(3, 2, 3);
+        x.friends(0, 2, true);
+        x.friends(1, 2, true);
+        x.here(2, false);
+        putAll(x, 1, 1, 1);
+        due("all but itself", x.plans(1), 3);
+        putAll(x, 0, 0, 0);
+        due("none", x.plans(1), 0);
+    }
+
+    void p17_changesNothing() {
+        changesNothing(Bench::some, x -> {
+            x.plans(0);
+            x.plans(1);
+            x.plans(2);
+            x.plans(-1);
+        });
+    }
+
+    // ---- 18: worth
+
+    void p18_what_1And9Taken_0And10Refused() {
+        WishSharer x = with(1, 1, 1);
+        x.wish(0, 0);
+        x.put(0, 0);
+        due("1", x.worth(1), 1);
+        due("9", x.worth(9), 1);
+        due("0", x.worth(0), NONE);
+        due("10", x.worth(10), NONE);
+        due("-1", x.worth(-1), NONE);
+        due("least", x.worth(LEAST_INT), NONE);
+        due("most", x.worth(MOST_INT), NONE);
+    }
+
+    void p18_ofNothing_0() {
+        WishSharer x = new WishSharer();
+        WishSharer y = full();
+        putEach(y, 8, NONE);
+        for (int what = 1; what <= 9; what++) {
+            due("no PUPILS, worth(" + what + ")", x.worth(what), 0);
+            due("none has a PROJECT, worth(" + what + ")", y.worth(what), 0);
+        }
+    }
+
+    void p18_nobodyHere_0() {
+        WishSharer x = full();
+        for (int p = 0; p < 8; p++) {
+            x.here(p, false);
+        }
+        for (int what = 1; what <= 9; what++) {
+            due("worth(" + what + ")", x.worth(what), 0);
+        }
+    }
+
+    void p18_eachRank_1To6() {
+        for (int rank = 1; rank <= 6; rank++) {
+            WishSharer x = with(8, 5, 8);
+            for (int p = 0; p < 8; p++) {
+                x.wishes(p, 1, rank == 6 ? 4 : 5, 0, 1);
+            }
+            putEach(x, 8, rank == 6 ? 4 : rank - 1);
+            for (int what = 1; what <= 6; what++) {
+                due("all of RANK " + rank + ", worth(" + what + ")", x.worth(what), what == rank ? 8 : 0);
+            }
+            due("GRIEF", x.worth(7), 8 * rank);
+        }
+    }
+
+    void p18_grief_mostOfAll() {
+        WishSharer x = with(8, 1, 8);
+        for (int y = 0; y < 60; y++) {
+            x.best();
+            x.book();
+        }
+        x.best();
+        due("worth(7)", x.worth(7), 8 * 6 * 301);
+        due("worth(6)", x.worth(6), 8);
+    }
+
+    void p18_friends_mostOfAll() {
+        WishSharer x = with(8, 2, 8);
+        for (int a = 0; a < 8; a++) {
+            for (int b = 0; b < a; b++) {
+                x.friends(a, b, true);
+            }
+        }
+        putEach(x, 8, 1);
+        due("28 pairs", x.worth(8), 28);
+        putAll(x, 0, 0, 0, 0);
+        due("6 and 6", x.worth(8), 12);
+    }
+
+    void p18_projects_1To5() {
+        WishSharer x = with(8, 5, 8);
+        putEach(x, 8, 4);
+        for (int q = 0; q < 5; q++) {
+            x.put(q, q);
+            due("worth(9)", x.worth(9), q < 4 ? q + 2 : 5);
+        }
+    }
+
+    void p18_notRight_allTheSame() {
+        WishSharer x = with(2, 1, 1);
+        x.friends(0, 1, true);
+        x.apart(0, 1, true);
+        x.offered(0, false);
+        putAll(x, 0, 0);
+        due("RANK 6", x.worth(6), 2);
+        due("GRIEF", x.worth(7), 12);
+        due("FRIENDS", x.worth(8), 1);
+        due("PROJECTS", x.worth(9), 1);
+    }
+
+    void p18_changesNothing() {
+        changesNothing(Bench::some, x -> {
+            for (int what = 0; what <= 10; what++) {
+                x.worth(what);
+            }
+        });
+    }
+
+    // ---- 19: swap
+
+    /** So many PUPILS, each the PROJECT of its own number modulo 5, that it likes less than the next one's. */
+    private static WishSharer crossed(int pupils) {
+        WishSharer x = with(pupils, 5, 8);
+        for (int p = 0; p < pupils; p++) {
+            int own = p % 5;
+            int next = p % 2 == 0 ? (p + 1) % 5 : (p + 4) % 5;
+            wishAll(x, p, next, own);
+            x.put(p, own);
+        }
+        return x;
+    }
+
+    void p19_noPupilsOrOne_none() {
+        due("no PUPILS", new WishSharer().swap(), 0);
+        WishSharer x = with(1, 2, 1);
+        wishAll(x, 0, 1, 0);
+        x.put(0, 0);
+        due("one PUPIL", x.swap(), 0);
+        due("no ROW", x.count(4), 0);
+    }
+
+    void p19_firstTwo_0And1() {
+        WishSharer x = crossed(4);
+        due("swap()", x.swap(), 1);
+        rowIs("the first two", x, 0, 1);
+    }
+
+    void p19_lastTwo_6And7() {
+        WishSharer x = with(8, 2, 8);
+        putEach(x, 7, 0);
+        x.put(7, 1);
+        wishAll(x, 6, 1, 0);
+        wishAll(x, 7, 0, 1);
+        due("swap()", x.swap(), 1);
+        rowIs("the last two", x, 6, 7);
+    }
+
+    void p19_bySecondOnesNumber() {
+        WishSharer x = with(4, 2, 8);
+        putAll(x, 0, 0, 1, 1);
+        wishAll(x, 0, 1);
+        wishAll(x, 1, 1);
+        wishAll(x, 2, 0);
+        wishAll(x, 3, 0);
+        due("swap()", x.swap(), 1);
+        rowIs("0 and 2", x, 0, 2);
+        x.wishes(2, 2, 0, 0, 0);
+        due("swap()", x.swap(), 1);
+        rowIs("0 and 3", x, 0, 3);
+        x.wishes(0, 2, 0, 0, 0);
+        due("swap()", x.swap(), 1);
+        rowIs("1 and 3", x, 1, 3);
+    }
+
+    void p19_asMuchRankIsNotLess() {
+        WishSharer x = with(2, 2, 1);
+        putAll(x, 0, 1);
+        wishAll(x, 0, 1);
+        due("the other has 6 in both", x.swap(), 0);
+        x.wish(1, 0);
+        due("from 6 to 1 both", x.swap(), 1);
+    }
+
+    void p19_from6To5IsLess() {
+        WishSharer x = with(2, 5, 1);
+        x.offered(4, false);
+        x.put(0, 0);
+        x.put(1, 1);
+        // No row of five leaves a PROJECT out, so RANK 5 is left for 4 at the least.
+        wishAll(x, 0, 2, 3, 4, 1);
+        wishAll(x, 1, 2, 3, 4, 0);
+        due("from 6 to 4", x.swap(), 1);
+        x.wish(0, 0);
+        due("from 5 to 4", x.swap(), 1);
+        x.wishes(0, 2, 0, 0, 0);
+        wishAll(x, 0, 2, 3, 4, 0, 1);
+        due("from 4 to 5", x.swap(), 0);
+    }
+
+    void p19_oneNotHere_none() {
+        WishSharer x = crossed(2);
+        x.here(1, false);
+        due("swap()", x.swap(), 0);
+        x.here(1, true);
+        x.here(0, false);
+        due("swap()", x.swap(), 0);
+    }
+
+    void p19_oneWithout_none() {
+        WishSharer x = crossed(2);
+        x.put(0, NONE);
+        due("swap()", x.swap(), 0);
+        putAll(x, 0, NONE);
+        due("swap()", x.swap(), 0);
+    }
+
+    void p19_notRightThen_none() {
+        WishSharer x = crossed(3);
+        x.apart(0, 2, true);
+        x.put(2, 1);
+        due("0 comes to 2", x.swap(), 0);
+        x.apart(0, 2, false);
+        due("it may", x.swap(), 1);
+    }
+
+    void p19_rightThenIsEnough() {
+        WishSharer x = withPupils(2);
+        x.project(3, 1, 1, 0, 1);
+        x.project(3, 1, 1, 0, 0);
+        wishAll(x, 0, 1);
+        wishAll(x, 1, 0);
+        putAll(x, 0, 1);
+        due("wrong()", x.wrong(), 50);
+        due("swap()", x.swap(), 1);
+        planIs("THE PLAN is as it was", x, 0, 1);
+    }
+
+    void p19_none_theRowStays() {
+        WishSharer x = crossed(2);
+        x.swap();
+        putAll(x, 1, 0);
+        due("swap()", x.swap(), 0);
+        rowIs("as told last", x, 0, 1);
+    }
+
+    void p19_none_changesNothing() {
+        changesNothing(EdgesOfPlans::withNoneToSwap, x -> due("swap()", x.swap(), 0));
+    }
+
+    private static WishSharer withNoneToSwap() {
+        WishSharer x = some();
+        x.best();
+        x.here(0, false);
+        x.put(0, NONE);
+        return x;
+    }
+
+    // ---- 20: change
+
+    void p20_ofNothing_0() {
+        due("change()", new WishSharer().change(), 0);
+    }
+
+    void p20_nobodyHere_0() {
+        WishSharer x = with(2, 1, 2);
+        putAll(x, 0, 0);
+        x.here(0, false);
+        x.here(1, false);
+        due("change()", x.change(), 0);
+        planIs("none", x, NONE, NONE);
+    }
+
+    void p20_right_0_itStays() {
+        WishSharer x = with(8, 5, 8);
+        for (int p = 0; p < 8; p++) {
+            wishAll(x, p, 0);
+        }
+        putEach(x, 8, 4);
+        due("change()", x.change(), 0);
+        planIs("as it was", x, 4, 4, 4, 4, 4, 4, 4, 4);
+    }
+
+    void p20_all8Move() {
+        WishSharer x = with(8, 2, 8);
+        putEach(x, 8, 0);
+        x.offered(0, false);
+        due("change()", x.change(), 8);
+        planIs("all in the other", x, 1, 1, 1, 1, 1, 1, 1, 1);
+    }
+
+    void p20_oneMoves_7Stay() {
+        WishSharer x = with(8, 2, 7);
+        putEach(x, 8, 1);
+        wishAll(x, 5, 0);
+        for (int p = 0; p < 8; p++) {
+            x.wish(p, 1);
+        }
+        due("change()", x.change(), 1);
+        planIs("the one that wished to", x, 1, 1, 1, 1, 1, 0, 1, 1);
+    }
+
+    void p20_whoHadNone_doNotCount() {
+        WishSharer x = with(8, 1, 8);
+        due("change()", x.change(), 0);
+        planIs("all have one", x, 0, 0, 0, 0, 0, 0, 0, 0);
+    }
+
+    void p20_whoIsNotHere_doesNotCount() {
+        WishSharer x = with(3, 2, 2);
+        putAll(x, 0, 0, 1);
+        x.here(1, false);
+        due("change()", x.change(), 0);
+        planIs("it has none then", x, 0, NONE, 1);
+    }
+
+    void p20_fewestMovesBeforeTheWorstRanks() {
+        WishSharer x = with(3, 3, 2);
+        wishAll(x, 0, 0);
+        wishAll(x, 1, 1);
+        wishAll(x, 2, 2);
+        putAll(x, 0, 0, 0);
+        due("change()", x.change(), 1);
+        planIs("1 has its first, 2 has not", x, 0, 1, 0);
+        due("worth(6)", x.worth(6), 1);
+    }
+
+    void p20_noneRight_itStays() {
+        WishSharer x = with(3, 2, 1);
+        putAll(x, 0, 0, NONE);
+        due("change()", x.change(), NONE);
+        planIs("as it was", x, 0, 0, NONE);
+        due("no PROJECTS", withPupils(1).change(), NONE);
+    }
+
+    void p20_none_changesNothing() {
+        changesNothing(EdgesOfPlans::withoutAnyRightPlan, WishSharer::change);
+    }
+
+    // ---- 21: lie
+
+    void p21_pupil_firstAndLastTaken() {
+        WishSharer x = with(5, 5, 1);
+        due("lie(0)", x.lie(0), 0);
+        due("lie(4)", x.lie(4), 0);
+    }
+
+    void p21_pupil_noneSuch() {
+        WishSharer x = with(3, 3, 1);
+        int[] none = {-1, 3, 8, LEAST_INT, MOST_INT};
+        for (int p : none) {
+            due("lie(" + p + ")", x.lie(p), NONE);
+        }
+        due("no PUPILS", new WishSharer().lie(0), NONE);
+        due("8 of eight", with(8, 1, 8).lie(8), NONE);
+    }
+
+    void p21_pupil_notHere() {
+        WishSharer x = with(2, 2, 1);
+        x.here(1, false);
+        due("lie(1)", x.lie(1), NONE);
+        due("lie(0)", x.lie(0), 0);
+    }
+
+    void p21_fiveHereTaken_sixRefused() {
+        WishSharer x = with(8, 5, 2);
+        due("eight", x.lie(7), NONE);
+        x.here(0, false);
+        x.here(1, false);
+        due("six", x.lie(7), NONE);
+        x.here(2, false);
+        due("five", x.lie(7), 0);
+    }
+
+    void p21_noneSuchBeforeNoPlan() {
+        WishSharer x = with(6, 1, 1);
+        due("six, no PLAN is RIGHT", x.lie(0), NONE);
+        x.here(0, false);
+        due("not HERE, no PLAN is RIGHT", x.lie(0), NONE);
+        due("none such, no PLAN is RIGHT", x.lie(6), NONE);
+    }
+
+    void p21_noPlanIsRight_minus2() {
+        WishSharer x = with(2, 1, 1);
+        due("one place for two", x.lie(0), -2);
+        due("no PROJECTS", withPupils(1).lie(0), -2);
+        x.project(0, 1, 1, 0, 0);
+        x.offered(1, false);
+        due("not offered", x.lie(0), -2);
+        x.offered(1, true);
+        due("now there is one", x.lie(0), 0);
+    }
+
+    void p21_oneProject_noRowPays() {
+        WishSharer x = with(1, 1, 1);
+        due("RANK 6", x.lie(0), 0);
+        x.wish(0, 0);
+        due("RANK 1", x.lie(0), 0);
+        due("no ROW", x.count(4), 0);
+    }
+
+    void p21_withoutWishes_noRowPays() {
+        WishSharer x = with(5, 5, 1);
+        for (int p = 1; p < 5; p++) {
+            x.wishes(p, 1, 5, 0, 1);
+        }
+        x.best();
+        due("it gets what is left", x.of(0, 5), 6);
+        due("lie(0)", x.lie(0), 0);
+    }
+
+    void p21_ofTwoProjects() {
+        WishSharer x = with(2, 2, 1);
+        wishAll(x, 0, 1, 0);
+        wishAll(x, 1, 1, 0);
+        x.best();
+        planIs("by LOTS", x, 1, 0);
+        due("RANKS 1 and 2 are told as they are", x.lie(1), 0);
+        x.project(0, 1, 1, 0, 0);
+        x.offered(2, false);
+        due("with a third one RANK 3 can be told", x.lie(1), 1);
+        rowIs("the first that pays", x, 1, 2, 0);
+    }
+
+    void p21_rowHasThoseNotOfferedToo() {
+        WishSharer x = with(2, 5, 1);
+        wishAll(x, 0, 0, 1);
+        wishAll(x, 1, 0, 1);
+        for (int q = 2; q < 5; q++) {
+            x.offered(q, false);
+        }
+        due("lie(1)", x.lie(1), 1);
+        rowIs("five", x, 0, 2, 1, 3, 4);
+    }
+
+    void p21_pays_wishesAndPlanStay() {
+        WishSharer x = with(2, 3, 1);
+        wishAll(x, 0, 0, 1);
+        wishAll(x, 1, 0, 1);
+        putAll(x, 2, NONE);
+        x.offered(2, false);
+        due("lie(1)", x.lie(1), 1);
+        wishesAre("its own", x, 1, 0, 1);
+        wishesAre("the other's", x, 0, 0, 1);
+        planIs("as it was", x, 2, NONE);
+    }
+
+    void p21_paysNot_changesNothing() {
+        changesNothing(Bench::some, x -> due("lie(3)", x.lie(3), 0));
+    }
+
+    void p21_refused_changesNothing() {
+        changesNothing(Bench::some, x -> {
+            due("lie(4)", x.lie(4), NONE);
+            due("lie(-1)", x.lie(-1), NONE);
+        });
+        changesNothing(Bench::full, x -> due("lie(0)", x.lie(0), NONE));
+    }
+
+    void p21_noPlan_changesNothing() {
+        changesNothing(EdgesOfPlans::withoutAnyRightPlan, x -> due("lie(0)", x.lie(0), -2));
+    }
+}
