@@ -1,3 +1,5 @@
+import java.util.function.Supplier;
+
 /** Cases of promises 14 to 21, plans: a case a sentence, told by its name. */
 final class EdgesOfPlans extends Bench {
     private static final int EVERY = 390625;
@@ -132,6 +134,86 @@ final class EdgesOfPlans extends Bench {
         due("best()", x.best(), 1);
         planIs("two each", x, 0, 0, 1, 1, 2, 2, 3, 3);
         due("none better", x.plans(1), 0);
+    }
+
+    /** That best, change and plans take none of the PLANS that have this WRONG: so many are left, this one is the best. */
+    private void onlyTheseAreRight(String what, WishSharer x, int right, int... best) {
+        due(what + ", plans(0)", x.plans(0), right);
+        due(what + ", best()", x.best(), 1);
+        planIs(what + ", best()", x, best);
+        due(what + ", wrong()", x.wrong(), 0);
+        putEach(x, best.length, NONE);
+        due(what + ", plans(1)", x.plans(1), right);
+        due(what + ", change()", x.change(), 0);
+        planIs(what + ", change()", x, best);
+    }
+
+    void p16_notOffered_ofEachProject() {
+        for (int q = 0; q < 5; q++) {
+            WishSharer x = with(1, 5, 1);
+            for (int other = 0; other < 5; other++) {
+                x.offered(other, other == q);
+            }
+            onlyTheseAreRight("only " + q, x, 1, q);
+        }
+    }
+
+    void p16_tooFewAtTheEnd_ofEachProject() {
+        for (int q = 0; q < 5; q++) {
+            WishSharer x = withPupils(3);
+            for (int other = 0; other < 5; other++) {
+                x.project(0, other == q ? 2 : 1, 3, 0, 0);
+                x.offered(other, other == q || other == (q + 1) % 5);
+            }
+            // None, three times two, or all three in q.
+            int less = Math.min(q, (q + 1) % 5);
+            onlyTheseAreRight("2 to 3 in " + q, x, 5, less, less, less);
+        }
+    }
+
+    void p16_withoutLeader_ofEachPupil() {
+        for (int leader = 0; leader < 3; leader++) {
+            WishSharer x = withPupils(3);
+            x.project(3, 1, 3, 0, leader);
+            onlyTheseAreRight("LEADER " + leader, x, 1, 0, 0, 0);
+            x.project(0, 1, 3, 0, 0);
+            // Four with the LEADER, and all in the other one.
+            onlyTheseAreRight("LEADER " + leader, x, 5, 0, 0, 0);
+        }
+    }
+
+    void p16_withoutSkill_eachBit() {
+        for (int bit = 0; bit <= 7; bit++) {
+            WishSharer x = new WishSharer();
+            x.pupil(255 - (1 << bit));
+            x.pupil(1 << bit);
+            x.project(0, 1, 2, 1 << bit, 0);
+            x.project(0, 1, 2, 0, 0);
+            // All but the first one alone in PROJECT 0.
+            onlyTheseAreRight("bit " + bit, x, 3, 0, 0);
+        }
+    }
+
+    void p16_twiceWithoutTwoOfASkill() {
+        WishSharer x = new WishSharer();
+        x.pupil(1);
+        x.pupil(0);
+        x.project(2, 1, 1, 1, 0);
+        x.project(0, 1, 2, 0, 0);
+        // Twice it would need two of the SKILL.
+        onlyTheseAreRight("one has it", x, 2, 0, 1);
+    }
+
+    void p16_apart_ofEachTwo() {
+        for (int a = 0; a < 3; a++) {
+            for (int b = a + 1; b < 3; b++) {
+                WishSharer x = with(3, 2, 3);
+                x.apart(b, a, true);
+                int[] best = {0, 0, 0};
+                best[b] = 1;
+                onlyTheseAreRight(a + " and " + b, x, 4, best);
+            }
+        }
     }
 
     void p16_onlyTheLastPlanOfAllIsRight() {
@@ -621,6 +703,29 @@ final class EdgesOfPlans extends Bench {
         due("lie(4)", x.lie(4), 0);
     }
 
+    void p21_pupil_firstOfEight_itPays() {
+        lieOfTwoOfEightPays(0, 7, 0);
+    }
+
+    void p21_pupil_lastOfEight_itPays() {
+        lieOfTwoOfEightPays(7, 0, 1);
+    }
+
+    /** Two are HERE, like the same two PROJECTS, and the other one is first by LOTS of this seed. */
+    private void lieOfTwoOfEightPays(int pupil, int other, int seed) {
+        WishSharer x = with(8, 3, 1);
+        x.lots(seed);
+        due("the other one is first", x.of(other, 6) < x.of(pupil, 6) ? 1 : 0, 1);
+        for (int p = 0; p < 8; p++) {
+            x.here(p, p == pupil || p == other);
+        }
+        wishAll(x, pupil, 1, 2);
+        wishAll(x, other, 1, 2);
+        x.offered(0, false);
+        due("lie()", x.lie(pupil), 1);
+        rowIs("the first that pays", x, 0, 1, 2);
+    }
+
     void p21_pupil_noneSuch() {
         WishSharer x = with(3, 3, 1);
         int[] none = {-1, 3, 8, LEAST_INT, MOST_INT};
@@ -696,6 +801,71 @@ final class EdgesOfPlans extends Bench {
         x.offered(2, false);
         due("with a third one RANK 3 can be told", x.lie(1), 1);
         rowIs("the first that pays", x, 1, 2, 0);
+    }
+
+    /** Two who like the other one's PROJECT second, each of a size of both. */
+    private static WishSharer whereTheFirstRowPays() {
+        WishSharer x = withPupils(2);
+        x.project(0, 2, 2, 0, 0);
+        x.project(0, 1, 2, 0, 0);
+        x.project(0, 1, 2, 0, 0);
+        x.project(0, 2, 2, 0, 0);
+        x.project(0, 1, 1, 0, 0);
+        wishAll(x, 0, 3, 0);
+        wishAll(x, 1, 0, 3);
+        return x;
+    }
+
+    private static WishSharer whereTheLastRowPays() {
+        WishSharer x = withPupils(3);
+        x.project(0, 1, 2, 0, 0);
+        x.project(0, 2, 2, 0, 0);
+        x.project(0, 1, 1, 0, 0);
+        x.project(0, 1, 1, 0, 0);
+        x.project(0, 1, 1, 0, 0);
+        x.offered(3, false);
+        wishAll(x, 0, 3, 2, 1, 0, 4);
+        wishAll(x, 1, 3, 4, 2);
+        wishAll(x, 2, 4, 3, 0);
+        return x;
+    }
+
+    /** Tells the rows of five in earnest, in their order, up to the first by which best() gives less RANK; else 0. */
+    private static int firstThatPays(Supplier<WishSharer> begin, int pupil) {
+        WishSharer honest = begin.get();
+        honest.best();
+        int rank = honest.of(pupil, 5);
+        for (int digits = 1234; digits <= 43210; digits++) {
+            WishSharer x = begin.get();
+            x.wishes(pupil, 2, 0, 0, 0);
+            for (int part = 10000; part > 0; part /= 10) {
+                x.wish(pupil, digits / part % 10);
+            }
+            if (x.of(pupil, 2) == 5 && x.best() == 1 && honest.rank(pupil, x.of(pupil, 4)) < rank) {
+                return digits;
+            }
+        }
+        return 0;
+    }
+
+    void p21_theFirstRowOfAllPays() {
+        WishSharer x = whereTheFirstRowPays();
+        due("told in earnest", firstThatPays(EdgesOfPlans::whereTheFirstRowPays, 1), 1234);
+        due("lie(1)", x.lie(1), 1);
+        rowIs("the first of 120", x, 0, 1, 2, 3, 4);
+    }
+
+    void p21_theLastRowOfAllPays() {
+        WishSharer x = whereTheLastRowPays();
+        due("told in earnest", firstThatPays(EdgesOfPlans::whereTheLastRowPays, 2), 43210);
+        due("lie(2)", x.lie(2), 1);
+        rowIs("the last of 120", x, 4, 3, 2, 1, 0);
+    }
+
+    void p21_noRowPays() {
+        WishSharer x = whereTheLastRowPays();
+        due("told in earnest", firstThatPays(EdgesOfPlans::whereTheLastRowPays, 0), 0);
+        due("lie(0)", x.lie(0), 0);
     }
 
     void p21_rowHasThoseNotOfferedToo() {

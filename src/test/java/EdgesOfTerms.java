@@ -308,6 +308,21 @@ final class EdgesOfTerms extends Bench {
         }
     }
 
+    void t1_wrong6_twice_eachOfBits0To7() {
+        for (int bit = 0; bit <= 7; bit++) {
+            WishSharer x = new WishSharer();
+            x.pupil(1 << bit);
+            x.pupil(255 - (1 << bit));
+            x.project(2, 1, 1, 1 << bit, 0);
+            putEach(x, 2, 0);
+            due("bit " + bit + " of one", x.wrong(), 60);
+            x.pupil(1 << bit);
+            x.here(1, false);
+            putAll(x, 0, NONE, 0);
+            due("bit " + bit + " of two", x.wrong(), 0);
+        }
+    }
+
     void t1_wrong6_twiceEachSkillTwo() {
         WishSharer x = new WishSharer();
         x.pupil(3);
@@ -573,6 +588,36 @@ final class EdgesOfTerms extends Bench {
         due("yet the other one is better", x.plans(1), 1);
     }
 
+    void t1_better_asMany6_fewer2_before2999OfGrief() {
+        WishSharer x = withPupils(7);
+        x.project(0, 7, 7, 0, 0);
+        x.project(0, 7, 7, 0, 0);
+        x.project(0, 2, 2, 0, 0);
+        for (int p = 2; p < 7; p++) {
+            x.here(p, false);
+        }
+        for (int y = 0; y < 60; y++) {
+            x.best();
+            x.book();
+        }
+        for (int p = 0; p < 7; p++) {
+            x.here(p, true);
+            wishAll(x, p, p < 2 || p == 6 ? 1 : 0);
+        }
+        wishAll(x, 4, 1);
+        wishAll(x, 5, 1);
+        wishAll(x, 6, 0);
+        x.offered(2, false);
+        due("two PLANS", x.plans(0), 2);
+        putEach(x, 7, 1);
+        due("GRIEF of all in 1", x.worth(7), 619);
+        due("two of RANK 2", x.worth(2), 2);
+        due("the other one is better", x.plans(1), 1);
+        due("best()", x.best(), 1);
+        due("GRIEF of all in 0", x.worth(7), 3618);
+        due("one of RANK 2", x.worth(2), 1);
+    }
+
     void t1_better_ranksBeforeGrief_atTheHighestScore() {
         WishSharer x = with(2, 4, 1);
         x.here(0, false);
@@ -665,6 +710,45 @@ final class EdgesOfTerms extends Bench {
         due("all in one, or by number", x.plans(1), 2 + 8 + 7);
     }
 
+    void t1_better_1LessOfGrief_before24PairsMore() {
+        WishSharer x = withPupils(8);
+        x.project(0, 8, 8, 0, 0);
+        for (int q = 1; q < 5; q++) {
+            x.project(0, 1, 2, 0, 0);
+        }
+        scoreOf1For(x, 1);
+        for (int a = 0; a < 8; a++) {
+            for (int b = 0; b < a; b++) {
+                x.friends(a, b, true);
+            }
+            // Half of them like PROJECT 0 less than the one that they share with one other PUPIL.
+            int own = 1 + a / 2;
+            x.wishes(a, 1, 2, a % 2 == 0 ? 0 : own, a % 2 == 0 ? own : -own);
+        }
+        putEach(x, 8, 0);
+        due("28 pairs", x.worth(8), 28);
+        due("GRIEF", x.worth(7), 14);
+        due("one is better", x.plans(1), 1);
+        due("best()", x.best(), 1);
+        planIs("two and two", x, 1, 1, 2, 2, 3, 3, 4, 4);
+        due("4 pairs", x.worth(8), 4);
+        due("GRIEF 1 less", x.worth(7), 13);
+    }
+
+    /** Books a year of this PUPIL alone, its PROJECT being its second. */
+    private void scoreOf1For(WishSharer x, int pupil) {
+        for (int p = 0; p < x.count(0); p++) {
+            x.here(p, p == pupil);
+        }
+        wishAll(x, pupil, 2, 1);
+        x.put(pupil, 1);
+        due("book()", x.book(), 1);
+        due("SCORE", x.of(pupil, 3), 1);
+        for (int p = 0; p < x.count(0); p++) {
+            x.here(p, true);
+        }
+    }
+
     void t1_better_friendsDoNotCountBeforeGrief() {
         WishSharer x = with(2, 2, 2);
         wishAll(x, 0, 0);
@@ -689,6 +773,43 @@ final class EdgesOfTerms extends Bench {
         planIs("1 is first", x, 0, 1, 2);
         putAll(x, 0, 2, 1);
         due("one is better", x.plans(1), 1);
+    }
+
+    void t1_better_lots_lessRankInTheLastProject_beforeTheFirstProject() {
+        for (int rank = 1; rank <= 4; rank++) {
+            WishSharer x = with(2, 5, 1);
+            for (int p = 0; p < 2; p++) {
+                for (int place = 1; place < rank; place++) {
+                    x.wish(p, place);
+                }
+                wishAll(x, p, 4, 0);
+            }
+            for (int q = 1; q < 4; q++) {
+                x.offered(q, false);
+            }
+            x.best();
+            planIs("RANK " + rank + " in 4, the next in 0", x, 4, 0);
+            putAll(x, 0, 4);
+            due("RANK " + rank + ", one is better", x.plans(1), 1);
+        }
+    }
+
+    void t1_better_lots_lessNumberOfTheFirst_beforeLessRankOfTheNext() {
+        WishSharer x = new WishSharer();
+        x.pupil(0);
+        x.pupil(1);
+        x.pupil(1);
+        for (int q = 0; q < 5; q++) {
+            // The last one is none for the first PUPIL.
+            x.project(0, 1, 1, q == 4 ? 1 : 0, 0);
+            x.offered(q, q < 2 || q == 4);
+        }
+        wishAll(x, 1, 0);
+        wishAll(x, 2, 1);
+        x.best();
+        planIs("0 has 6 in both, 1 has 6", x, 0, 4, 1);
+        putAll(x, 1, 0, 4);
+        due("0 has 6 in both, 1 has 1: one is better", x.plans(1), 1);
     }
 
     void t1_better_lots_lastOfEightDecidesToo() {

@@ -34,8 +34,8 @@ public final class ModelTest {
         for (long seed = first; seed < first + runs && !checks.failed(); seed++) {
             boolean large = seed % 60 == 59;
             int pupils = large ? 8 : 2 + (int) (seed % 5);
-            int projects = large ? 4 : 1 + (int) (seed % 7 * 3) % 5;
-            new ModelTest(checks, seed, pupils, projects).run(large ? 60 : CALLS);
+            int projects = large ? 5 : 1 + (int) (seed % 7 * 3) % 5;
+            new ModelTest(checks, seed, pupils, projects).run(large ? 130 : CALLS);
         }
         checks.end();
     }
