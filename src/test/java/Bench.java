@@ -124,6 +124,17 @@ abstract class Bench {
         return x;
     }
 
+    /** Two PUPILS, two places that both like alike, three PROJECTS that are not OFFERED; PUPIL 1 may lie. */
+    static WishSharer whereARowOfFivePays() {
+        WishSharer x = with(2, 5, 1);
+        wishAll(x, 0, 0, 1);
+        wishAll(x, 1, 0, 1);
+        for (int q = 2; q < 5; q++) {
+            x.offered(q, false);
+        }
+        return x;
+    }
+
     static void wishAll(WishSharer x, int pupil, int... projects) {
         for (int q : projects) {
             x.wish(pupil, q);

@@ -869,12 +869,7 @@ final class EdgesOfPlans extends Bench {
     }
 
     void p21_rowHasThoseNotOfferedToo() {
-        WishSharer x = with(2, 5, 1);
-        wishAll(x, 0, 0, 1);
-        wishAll(x, 1, 0, 1);
-        for (int q = 2; q < 5; q++) {
-            x.offered(q, false);
-        }
+        WishSharer x = whereARowOfFivePays();
         due("lie(1)", x.lie(1), 1);
         rowIs("five", x, 0, 2, 1, 3, 4);
     }

@@ -354,12 +354,7 @@ final class EdgesOfYears extends Bench {
     }
 
     void p25_ofFive_4Taken_5Throws() {
-        WishSharer x = with(2, 5, 1);
-        wishAll(x, 0, 0, 1);
-        wishAll(x, 1, 0, 1);
-        for (int q = 2; q < 5; q++) {
-            x.offered(q, false);
-        }
+        WishSharer x = whereARowOfFivePays();
         due("lie(1)", x.lie(1), 1);
         due("row(4)", x.row(4), 4);
         noRow(x, 5);
@@ -367,12 +362,7 @@ final class EdgesOfYears extends Bench {
     }
 
     void p25_aShorterRowAfterALonger_itsEndThrows() {
-        WishSharer x = with(2, 5, 1);
-        wishAll(x, 0, 0, 1);
-        wishAll(x, 1, 0, 1);
-        for (int q = 2; q < 5; q++) {
-            x.offered(q, false);
-        }
+        WishSharer x = whereARowOfFivePays();
         due("lie(1)", x.lie(1), 1);
         x.wishes(0, 1, 1, 1, 0);
         x.wishes(1, 1, 1, 0, 0);
