@@ -1,3 +1,4 @@
+import java.io.IOException;
 import java.lang.reflect.InvocationTargetException;
 import java.lang.reflect.Method;
 import java.util.Arrays;
@@ -5,14 +6,15 @@ import java.util.Comparator;
 import java.util.Set;
 import java.util.TreeSet;
 
-/** Runs the cases of the document's edges; a case is a method named by its place in the document: pNN_, w_, t1_, t2_. */
-public final class EdgesTest {
+/** Runs the cases of the document's sentences; a case is a method named by its place: pNN_, w_, f_, t1_, t2_. */
+public final class CasesTest {
     private static final int PROMISES = 25;
 
-    public static void main(String[] args) {
-        Checks checks = new Checks("EdgesTest");
+    public static void main(String[] args) throws IOException {
+        Checks checks = new Checks("CasesTest");
         Set<String> places = new TreeSet<>();
-        Bench[] all = {new EdgesOfTerms(checks), new EdgesOfWho(checks), new EdgesOfPlans(checks), new EdgesOfYears(checks)};
+        Bench[] all = {new CasesOfFace(checks), new CasesOfTerms(checks), new CasesOfWho(checks), new CasesOfPlans(checks),
+            new CasesOfYears(checks)};
         int cases = 0;
         for (Bench bench : all) {
             for (Method method : casesOf(bench)) {
@@ -24,14 +26,14 @@ public final class EdgesTest {
         for (int promise = 1; promise <= PROMISES; promise++) {
             checks.same("promise " + promise + " has a case", places.contains(String.format("p%02d", promise)), true);
         }
-        checks.same("'What it is' and both 'Terms' have a case", places.size(), PROMISES + 3);
-        System.out.println("EdgesTest: " + cases + " cases");
+        checks.same("'What it is', the face and both 'Terms' have a case", places.size(), PROMISES + 4);
+        System.out.println("CasesTest: " + cases + " cases");
         checks.end();
     }
 
     private static Method[] casesOf(Bench bench) {
         return Arrays.stream(bench.getClass().getDeclaredMethods())
-            .filter(method -> method.getName().matches("(p\\d\\d|w|t1|t2)_.*"))
+            .filter(method -> method.getName().matches("(p\\d\\d|w|f|t1|t2)_.*"))
             .sorted(Comparator.comparing(Method::getName))
             .toArray(Method[]::new);
     }

@@ -1,6 +1,6 @@
 /** Cases of 'What it is' (w) and of the two 'Terms' (t1, t2): a case a sentence, told by its name. */
-final class EdgesOfTerms extends Bench {
-    EdgesOfTerms(Checks checks) {
+final class CasesOfTerms extends Bench {
+    CasesOfTerms(Checks checks) {
         super(checks);
     }
 
@@ -32,7 +32,283 @@ final class EdgesOfTerms extends Bench {
         due("call 512", x.plans(0), 390625);
     }
 
+    void w_sharesOutProjects() {
+        WishSharer x = with(3, 3, 1);
+        wishAll(x, 0, 2);
+        wishAll(x, 1, 0);
+        wishAll(x, 2, 1);
+        due("best()", x.best(), 1);
+        planIs("each its first", x, 2, 0, 1);
+    }
+
+    void w_pupils_wishesSkillsFriendsThoseTheyMustNotBeWith() {
+        WishSharer x = new WishSharer();
+        due("pupil(5)", x.pupil(5), 0);
+        due("pupil(0)", x.pupil(0), 1);
+        x.project(0, 1, 2, 4, 0);
+        due("wish(0, 0)", x.wish(0, 0), 1);
+        yes("friends(0, 1, true)", x.friends(0, 1, true));
+        putAll(x, 0, 0);
+        due("WISHES", x.worth(1), 1);
+        due("FRIENDS", x.worth(8), 1);
+        due("SKILLS", x.wrong(), 0);
+        yes("apart(0, 1, true)", x.apart(0, 1, true));
+        due("APART", x.wrong(), 70);
+    }
+
+    void w_projects_kindsSizesSkills() {
+        WishSharer x = withPupils(3);
+        x.project(0, 1, 3, 0, 0);
+        x.project(1, 1, 3, 0, 0);
+        x.project(0, 1, 2, 0, 0);
+        x.project(0, 1, 3, 1, 0);
+        int[] wrong = {0, 41, 42, 63};
+        for (int q = 0; q < 4; q++) {
+            putEach(x, 3, q);
+            due("all three in " + q, x.wrong(), wrong[q]);
+        }
+    }
+
+    void w_best_theWorstWishesFirst() {
+        WishSharer x = withTwoPlans(3);
+        wishForTwo(x, 0, 1, 2);
+        wishForTwo(x, 1, 1, 2);
+        wishForTwo(x, 2, 3, 2);
+        due("best()", x.best(), 1);
+        planIs("three of RANK 2, not one of 3", x, 1, 1, 1);
+    }
+
+    void w_best_thoseWhoFaredIllCountMore() {
+        WishSharer x = with(2, 2, 1);
+        wishAll(x, 0, 0, 1);
+        wishAll(x, 1, 0, 1);
+        x.best();
+        planIs("the first year", x, 0, 1);
+        x.book();
+        x.best();
+        planIs("the second year", x, 1, 0);
+    }
+
+    void w_best_friends() {
+        WishSharer x = with(4, 2, 2);
+        x.best();
+        planIs("without FRIENDS", x, 0, 0, 1, 1);
+        x.friends(3, 0, true);
+        x.best();
+        planIs("with FRIENDS", x, 0, 1, 1, 0);
+    }
+
+    void w_best_thenLots() {
+        WishSharer x = with(2, 2, 1);
+        wishAll(x, 0, 0, 1);
+        wishAll(x, 1, 0, 1);
+        x.best();
+        planIs("0 is first", x, 0, 1);
+        x.lots(0);
+        x.best();
+        planIs("1 is first", x, 1, 0);
+    }
+
+    void w_whyAPlanIsNone() {
+        WishSharer x = with(2, 1, 1);
+        putAll(x, 0, 0);
+        due("two in a PROJECT for one", x.wrong(), 40);
+        due("best()", x.best(), 0);
+        x.put(1, NONE);
+        due("one without a PROJECT", x.wrong(), 11);
+    }
+
+    void w_howManyAreBetter() {
+        WishSharer x = with(2, 2, 2);
+        putAll(x, 1, 1);
+        due("of the last one", x.plans(1), 3);
+        x.best();
+        due("of the best one", x.plans(1), 0);
+    }
+
+    void w_whoWouldChangePlaces() {
+        WishSharer x = with(3, 3, 1);
+        putAll(x, 0, 1, 2);
+        wishAll(x, 0, 2, 0);
+        wishAll(x, 1, 2, 1);
+        wishAll(x, 2, 1, 2);
+        due("swap()", x.swap(), 1);
+        rowIs("each likes the other's more", x, 1, 2);
+    }
+
+    void w_whatALateLeaverMoves() {
+        WishSharer x = withPupils(5);
+        x.project(0, 2, 3, 0, 0);
+        x.project(0, 2, 3, 0, 0);
+        wishAll(x, 3, 0);
+        putAll(x, 0, 0, 1, 1, 1);
+        due("change() before", x.change(), 0);
+        x.here(0, false);
+        due("change()", x.change(), 1);
+        planIs("the one that wished to has moved", x, NONE, 0, 1, 0, 1);
+    }
+
+    void w_whetherALieWouldHavePaid() {
+        WishSharer x = with(2, 3, 1);
+        wishAll(x, 0, 0, 1);
+        wishAll(x, 1, 0, 1);
+        x.offered(2, false);
+        due("lie(0)", x.lie(0), 0);
+        due("lie(1)", x.lie(1), 1);
+        rowIs("what it would have told", x, 0, 2, 1);
+    }
+
+    void w_yearsBooked() {
+        WishSharer x = with(1, 1, 1);
+        x.best();
+        due("book()", x.book(), 1);
+        due("count(3)", x.count(3), 1);
+        due("year(0, 0)", x.year(0, 0), 6);
+        due("undo()", x.undo(), 0);
+        due("year(0, 0)", x.year(0, 0), NONE);
+    }
+
     // ---- Terms 1: what there is
+
+    void t1_pupils_from0On_atMost8() {
+        WishSharer x = new WishSharer();
+        for (int p = 0; p < 8; p++) {
+            noOf(x, p, 0);
+            due("PUPIL", x.pupil(10 + p), p);
+            due("of(" + p + ", 0)", x.of(p, 0), 10 + p);
+        }
+        due("a ninth", x.pupil(0), NONE);
+        noOf(x, 8, 0);
+        due("the first as it was", x.of(0, 0), 10);
+    }
+
+    void t1_here_orNot_eachForItself() {
+        for (int away = 0; away < 8; away++) {
+            WishSharer x = withPupils(8);
+            x.here(away, false);
+            for (int p = 0; p < 8; p++) {
+                due(away + " is not, of(" + p + ", 1)", x.of(p, 1), p == away ? 0 : 1);
+            }
+        }
+    }
+
+    void t1_wishes_aRowOfUnlikeProjects() {
+        WishSharer x = with(2, 5, 1);
+        int[] told = {3, 3, 1, 3, 4, 1, 4};
+        for (int q : told) {
+            x.wish(0, q);
+        }
+        wishesAre("one by one", x, 0, 3, 1, 4);
+        for (int step = -5; step <= 5; step++) {
+            int taken = x.wishes(1, 1, 20, 2, step);
+            int unlike = 0;
+            for (int q = 0; q < 5; q++) {
+                unlike += x.rank(1, q) < 6 ? 1 : 0;
+            }
+            due("from a sheet, step " + step, unlike, taken);
+        }
+    }
+
+    void t1_projects_from0On_atMost5() {
+        WishSharer x = withPupils(1);
+        for (int q = 0; q < 5; q++) {
+            due("rank(0, " + q + ")", x.rank(0, q), NONE);
+            due("PROJECT", x.project(0, 1, 1, 0, 0), q);
+            due("rank(0, " + q + ")", x.rank(0, q), 6);
+        }
+        due("a sixth", x.project(0, 1, 1, 0, 0), NONE);
+        due("rank(0, 5)", x.rank(0, 5), NONE);
+    }
+
+    void t1_offered_orNot_eachForItself() {
+        for (int taken = 0; taken < 5; taken++) {
+            WishSharer x = with(1, 5, 1);
+            x.offered(taken, false);
+            for (int q = 0; q < 5; q++) {
+                x.put(0, q);
+                due(taken + " is not, wrong() in " + q, x.wrong(), q == taken ? 30 + q : 0);
+            }
+        }
+    }
+
+    void t1_kind_eachProjectItsOwn() {
+        WishSharer x = withPupils(3);
+        for (int kind = 0; kind <= 3; kind++) {
+            x.project(kind, 1, 2, 0, 1);
+        }
+        int[] threeWrong = {40, 41, 0, 43};
+        for (int q = 0; q <= 3; q++) {
+            putEach(x, 3, q);
+            due("three in KIND " + q, x.wrong(), threeWrong[q]);
+        }
+        x.here(1, false);
+        x.here(2, false);
+        putAll(x, 0, NONE, NONE);
+        int[] oneWrong = {0, 41, 0, 53};
+        for (int q = 0; q <= 3; q++) {
+            x.put(0, q);
+            due("one in KIND " + q, x.wrong(), oneWrong[q]);
+        }
+    }
+
+    void t1_leastAndMost_1To8_leastNotAboveMost() {
+        for (int least = -1; least <= 10; least++) {
+            for (int most = -1; most <= 10; most++) {
+                WishSharer x = withPupils(1);
+                boolean sizes = 1 <= least && least <= most && most <= 8;
+                due(least + " to " + most, x.project(0, least, most, 0, 0), sizes ? 0 : NONE);
+            }
+        }
+    }
+
+    void t1_neededSkills_eachSetOfBits() {
+        for (int needed = 0; needed <= 255; needed++) {
+            WishSharer x = new WishSharer();
+            x.pupil(needed);
+            x.pupil(needed & needed - 1);
+            x.project(0, 1, 1, needed, 0);
+            x.project(0, 1, 1, 0, 0);
+            putAll(x, 0, 1);
+            due(needed + " are there", x.wrong(), 0);
+            putAll(x, 1, 0);
+            due(needed + " but for one are there", x.wrong(), needed == 0 ? 0 : 60);
+        }
+    }
+
+    void t1_leader_eachProjectItsOwn() {
+        WishSharer x = withPupils(8);
+        int[] leaders = {3, 0, 7, 5, 3};
+        for (int leader : leaders) {
+            x.project(3, 1, 1, 0, leader);
+        }
+        for (int p = 0; p < 8; p++) {
+            x.here(p, false);
+        }
+        for (int p = 0; p < 8; p++) {
+            x.here(p, true);
+            for (int q = 0; q < 5; q++) {
+                x.put(p, q);
+                due(p + " alone in " + q, x.wrong(), p == leaders[q] ? 0 : 50 + q);
+            }
+            x.put(p, NONE);
+            x.here(p, false);
+        }
+    }
+
+    void t1_friendsAndApart_eachTwoForThemselves() {
+        WishSharer x = with(3, 2, 3);
+        x.friends(0, 1, true);
+        x.apart(1, 2, true);
+        int[] alone = {2, 0, 1};
+        int[] friends = {1, 0, 0};
+        int[] wrong = {0, 71, 0};
+        for (int i = 0; i < 3; i++) {
+            putEach(x, 3, 0);
+            x.put(alone[i], 1);
+            due("all but " + alone[i] + ", worth(8)", x.worth(8), friends[i]);
+            due("all but " + alone[i] + ", wrong()", x.wrong(), wrong[i]);
+        }
+    }
 
     void t1_skills_eachOfBits0To7CountsForItself() {
         for (int bit = 0; bit <= 7; bit++) {
@@ -89,6 +365,44 @@ final class EdgesOfTerms extends Bench {
         due("row of one, next before", x.rank(0, 1), 6);
         due("row of one, itself", x.rank(0, 2), 1);
         due("row of one, next behind", x.rank(0, 3), 6);
+    }
+
+    void t1_plan_aProjectOrNoneForEach() {
+        for (int a = NONE; a < 5; a++) {
+            for (int b = NONE; b < 5; b++) {
+                WishSharer x = with(2, 5, 1);
+                putAll(x, a, b);
+                planIs(a + " and " + b, x, a, b);
+            }
+        }
+    }
+
+    void t1_right_eachHereHasOneOffered_othersNone() {
+        for (int here = 0; here < 4; here++) {
+            for (int offered = 0; offered < 4; offered++) {
+                WishSharer x = with(2, 2, 2);
+                for (int i = 0; i < 2; i++) {
+                    x.here(i, (here >> i & 1) != 0);
+                    x.offered(i, (offered >> i & 1) != 0);
+                }
+                rightIfEachHasItsDue(x, here, offered);
+            }
+        }
+    }
+
+    private void rightIfEachHasItsDue(WishSharer x, int here, int offered) {
+        for (int a = NONE; a < 2; a++) {
+            for (int b = NONE; b < 2; b++) {
+                putAll(x, a, b);
+                boolean right = hasItsDue(here & 1, a, offered) && hasItsDue(here >> 1, b, offered);
+                String what = "HERE " + here + ", OFFERED " + offered + ", PLAN " + a + " " + b;
+                due(what, x.wrong() == 0 ? 1 : 0, right ? 1 : 0);
+            }
+        }
+    }
+
+    private static boolean hasItsDue(int here, int project, int offered) {
+        return here == 0 ? project == NONE : project != NONE && (offered >> project & 1) != 0;
     }
 
     // ---- Terms 1: WRONG
@@ -497,11 +811,11 @@ final class EdgesOfTerms extends Bench {
         }
     }
 
-    /** Eight PUPILS; only two PLANS are RIGHT: all in PROJECT 0, or all in PROJECT 1. */
-    private static WishSharer withTwoPlans() {
-        WishSharer x = withPupils(8);
+    /** Only two PLANS are RIGHT: all in PROJECT 0, or all in PROJECT 1. */
+    private static WishSharer withTwoPlans(int pupils) {
+        WishSharer x = withPupils(pupils);
         for (int q = 0; q < 5; q++) {
-            x.project(0, 8, 8, 0, 0);
+            x.project(0, pupils, pupils, 0, 0);
             x.offered(q, q < 2);
         }
         return x;
@@ -517,7 +831,7 @@ final class EdgesOfTerms extends Bench {
     }
 
     private void oneWorstAgainstAllNextTo(int worst) {
-        WishSharer x = withTwoPlans();
+        WishSharer x = withTwoPlans(8);
         wishForTwo(x, 0, worst, worst == 6 ? 4 : worst - 1);
         for (int p = 1; p < 8; p++) {
             wishForTwo(x, p, 1, worst - 1);
@@ -543,7 +857,7 @@ final class EdgesOfTerms extends Bench {
 
     /** Of both PLANS one PUPIL has the worst RANK; all in 0 has one of the next RANK, all in 1 none of it. */
     private void asManyWorstThenNext(int worst) {
-        WishSharer x = withTwoPlans();
+        WishSharer x = withTwoPlans(8);
         wishForTwo(x, 0, worst, worst - 2);
         wishForTwo(x, 1, worst - 1, worst - 2);
         for (int p = 2; p < 8; p++) {
@@ -672,7 +986,7 @@ final class EdgesOfTerms extends Bench {
     }
 
     void t1_better_asManyFriends_lotsDecide() {
-        WishSharer x = withTwoPlans();
+        WishSharer x = withTwoPlans(8);
         for (int p = 0; p < 8; p++) {
             x.wishes(p, 1, 2, p % 2, p % 2 == 0 ? 1 : -1);
         }

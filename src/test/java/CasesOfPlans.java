@@ -1,10 +1,11 @@
+import java.util.Random;
 import java.util.function.Supplier;
 
 /** Cases of promises 14 to 21, plans: a case a sentence, told by its name. */
-final class EdgesOfPlans extends Bench {
+final class CasesOfPlans extends Bench {
     private static final int EVERY = 390625;
 
-    EdgesOfPlans(Checks checks) {
+    CasesOfPlans(Checks checks) {
         super(checks);
     }
 
@@ -76,6 +77,45 @@ final class EdgesOfPlans extends Bench {
         due("of eight", x.wrong(), 0);
     }
 
+    void p15_ofPupils_1And2And7() {
+        for (int p = 0; p < 7; p++) {
+            WishSharer x = with(8, 2, 8);
+            putEach(x, 8, 1);
+            x.apart(p, 7, true);
+            due("7 of " + p, x.wrong(), 70 + p);
+            x.here(p, false);
+            due("2 of " + p, x.wrong(), 20 + p);
+            x.here(p, true);
+            x.put(p, NONE);
+            due("1 of " + p, x.wrong(), 10 + p);
+        }
+    }
+
+    void p15_ofProjects_3And4And5And6() {
+        for (int q = 0; q < 5; q++) {
+            WishSharer x = withPupils(8);
+            for (int i = 0; i < 5; i++) {
+                x.project(3, 1, 2, 1, 7);
+            }
+            for (int p = 2; p < 8; p++) {
+                x.here(p, false);
+            }
+            x.here(7, true);
+            putAll(x, NONE, q);
+            x.here(0, false);
+            x.put(7, q);
+            due("6 of " + q, x.wrong(), 60 + q);
+            x.put(7, (q + 1) % 5);
+            due("5 of " + q, x.wrong(), 50 + q);
+            x.here(0, true);
+            putAll(x, q, q);
+            x.put(7, q);
+            due("4 of " + q, x.wrong(), 40 + q);
+            x.offered(q, false);
+            due("3 of " + q, x.wrong(), 30 + q);
+        }
+    }
+
     void p15_least10_most76() {
         WishSharer x = with(8, 1, 8);
         due("WRONG 1 of PUPIL 0", x.wrong(), 10);
@@ -90,6 +130,40 @@ final class EdgesOfPlans extends Bench {
     }
 
     // ---- 16: best
+
+    void p16_noRightOneIsBetter() {
+        for (int seed = 0; seed < 60; seed++) {
+            WishSharer x = byChance(seed);
+            int right = x.plans(0);
+            due("seed " + seed + ", best()", x.best(), right > 0 ? 1 : 0);
+            due("seed " + seed + ", plans(1)", right > 0 ? x.plans(1) : 0, 0);
+            due("seed " + seed + ", wrong()", right > 0 ? x.wrong() : 0, 0);
+        }
+    }
+
+    /** Three PUPILS and three PROJECTS of all that there may be, told by a number. */
+    private static WishSharer byChance(int seed) {
+        Random random = new Random(seed);
+        WishSharer x = new WishSharer();
+        for (int p = 0; p < 3; p++) {
+            x.pupil(random.nextInt(4));
+        }
+        for (int q = 0; q < 3; q++) {
+            int least = 1 + random.nextInt(2);
+            x.project(random.nextInt(4), least, least + random.nextInt(3), random.nextInt(2), random.nextInt(3));
+        }
+        for (int p = 0; p < 3; p++) {
+            x.wishes(p, 1, random.nextInt(4), random.nextInt(3), random.nextInt(3) - 1);
+            x.wish(p, random.nextInt(3));
+        }
+        x.friends(0, 1 + random.nextInt(2), random.nextBoolean());
+        x.apart(1 + random.nextInt(2), 0, random.nextInt(4) == 0);
+        x.lots(random.nextInt());
+        if (x.best() == 1) {
+            x.book();
+        }
+        return x;
+    }
 
     void p16_ofNothing_thereIsOne() {
         due("best()", new WishSharer().best(), 1);
@@ -228,7 +302,7 @@ final class EdgesOfPlans extends Bench {
     }
 
     void p16_none_changesNothing() {
-        changesNothing(EdgesOfPlans::withoutAnyRightPlan, WishSharer::best);
+        changesNothing(CasesOfPlans::withoutAnyRightPlan, WishSharer::best);
     }
 
     /** Some of everything, and two who can't be together in the one PROJECT that is left. */
@@ -241,6 +315,28 @@ final class EdgesOfPlans extends Bench {
     }
 
     // ---- 17: plans
+
+    /** Puts each PLAN in turn: so many are RIGHT, and of those one has 0 BETTER ones, one has 1, and so on. */
+    void p17_everyRightPlanHasItsPlace() {
+        for (int seed = 0; seed < 30; seed++) {
+            boolean[] places = new boolean[27];
+            int right = 0;
+            for (int number = 0; number < 27; number++) {
+                WishSharer x = byChance(seed);
+                putAll(x, number / 9, number / 3 % 3, number % 3);
+                if (x.wrong() == 0) {
+                    right++;
+                    int better = x.plans(1);
+                    no("seed " + seed + ", two have " + better + " BETTER ones", places[better]);
+                    places[better] = true;
+                }
+            }
+            due("seed " + seed + ", plans(0)", byChance(seed).plans(0), right);
+            for (int place = 0; place < 27; place++) {
+                due("seed " + seed + ", one has " + place, places[place] ? 1 : 0, place < right ? 1 : 0);
+            }
+        }
+    }
 
     void p17_what_0And1Taken_minus1And2Refused() {
         WishSharer x = with(1, 2, 1);
@@ -374,6 +470,79 @@ final class EdgesOfPlans extends Bench {
     }
 
     // ---- 18: worth
+
+    /** PUPILS 0 and 1 in PROJECT 0, 2 and 3 in 2; 4 has none, 5 is not HERE; all but 3 and 5 are FRIENDS. */
+    private static WishSharer ofSixWhereFourArePlaced() {
+        WishSharer x = with(6, 3, 8);
+        wishAll(x, 0, 0);
+        wishAll(x, 1, 1, 0);
+        wishAll(x, 2, 0, 1, 2);
+        wishAll(x, 5, 2);
+        for (int a = 0; a < 6; a++) {
+            for (int b = 0; b < a; b++) {
+                x.friends(a, b, a != 5 || b != 3);
+            }
+        }
+        x.here(5, false);
+        putAll(x, 0, 0, 2, 2, NONE, 1);
+        return x;
+    }
+
+    void p18_ranks_howManyHaveThem() {
+        WishSharer x = ofSixWhereFourArePlaced();
+        int[] many = {1, 1, 1, 0, 0, 1};
+        for (int rank = 1; rank <= 6; rank++) {
+            due("worth(" + rank + ")", x.worth(rank), many[rank - 1]);
+        }
+    }
+
+    void p18_what7_grief() {
+        WishSharer x = ofSixWhereFourArePlaced();
+        due("RANKS 1, 2, 3, 6", x.worth(7), 12);
+        x.put(4, 1);
+        x.put(5, NONE);
+        due("book()", x.book(), 1);
+        putAll(x, 0, 0, 2, 2, NONE, 1);
+        due("times SCORE and 1: 1 * 1, 2 * 2, 3 * 3, 6 * 6", x.worth(7), 50);
+    }
+
+    void p18_what8_friends() {
+        WishSharer x = ofSixWhereFourArePlaced();
+        due("a pair in 0, a pair in 2", x.worth(8), 2);
+        x.friends(2, 3, false);
+        due("a pair in 0", x.worth(8), 1);
+        x.put(3, 0);
+        due("three pairs in 0", x.worth(8), 3);
+    }
+
+    void p18_what9_projectsWithAny() {
+        WishSharer x = ofSixWhereFourArePlaced();
+        due("0 and 2, not 1 of one who is not HERE", x.worth(9), 2);
+        x.here(5, true);
+        due("1 too", x.worth(9), 3);
+    }
+
+    void p18_onlyThoseHereWithAProject() {
+        for (int away = 0; away < 4; away++) {
+            WishSharer x = with(4, 1, 8);
+            x.friends(0, 1, true);
+            x.friends(1, 2, true);
+            x.friends(2, 3, true);
+            putEach(x, 4, 0);
+            x.here(away, false);
+            worthIs(away + " not HERE", x, away);
+            x.here(away, true);
+            x.put(away, NONE);
+            worthIs(away + " without", x, away);
+        }
+    }
+
+    private void worthIs(String what, WishSharer x, int away) {
+        due(what + ", RANK 6", x.worth(6), 3);
+        due(what + ", GRIEF", x.worth(7), 18);
+        due(what + ", FRIENDS", x.worth(8), away == 0 || away == 3 ? 2 : 1);
+        due(what + ", PROJECTS", x.worth(9), 1);
+    }
 
     void p18_what_1And9Taken_0And10Refused() {
         WishSharer x = with(1, 1, 1);
@@ -531,6 +700,39 @@ final class EdgesOfPlans extends Bench {
         rowIs("1 and 3", x, 1, 3);
     }
 
+    void p19_inOneProject_none() {
+        WishSharer x = with(2, 2, 2);
+        wishAll(x, 0, 1, 0);
+        wishAll(x, 1, 1, 0);
+        putAll(x, 0, 0);
+        due("both in 0", x.swap(), 0);
+        putAll(x, 1, 1);
+        due("both in 1", x.swap(), 0);
+    }
+
+    void p19_bothMustHaveLess() {
+        WishSharer x = with(2, 2, 1);
+        putAll(x, 0, 1);
+        wishAll(x, 0, 1, 0);
+        due("less for 0, as much for 1", x.swap(), 0);
+        wishAll(x, 1, 1, 0);
+        due("less for 0, more for 1", x.swap(), 0);
+        x.wishes(0, 1, 2, 0, 1);
+        x.wishes(1, 1, 2, 0, 1);
+        due("more for 0, less for 1", x.swap(), 0);
+        x.wishes(0, 1, 2, 1, -1);
+        due("less for both", x.swap(), 1);
+    }
+
+    void p19_thePlanStays() {
+        WishSharer x = with(2, 2, 1);
+        wishAll(x, 0, 1, 0);
+        wishAll(x, 1, 0, 1);
+        putAll(x, 0, 1);
+        due("swap()", x.swap(), 1);
+        planIs("as it was", x, 0, 1);
+    }
+
     void p19_asMuchRankIsNotLess() {
         WishSharer x = with(2, 2, 1);
         putAll(x, 0, 1);
@@ -603,7 +805,7 @@ final class EdgesOfPlans extends Bench {
     }
 
     void p19_none_changesNothing() {
-        changesNothing(EdgesOfPlans::withNoneToSwap, x -> due("swap()", x.swap(), 0));
+        changesNothing(CasesOfPlans::withNoneToSwap, x -> due("swap()", x.swap(), 0));
     }
 
     private static WishSharer withNoneToSwap() {
@@ -683,6 +885,68 @@ final class EdgesOfPlans extends Bench {
         due("worth(6)", x.worth(6), 1);
     }
 
+    /** Three in PROJECT 0, of which one must move to 1. */
+    private static WishSharer whereOneOfThreeMoves() {
+        WishSharer x = with(3, 2, 2);
+        putEach(x, 3, 0);
+        return x;
+    }
+
+    void p20_ofSeveralTheBest_byRanks() {
+        WishSharer x = whereOneOfThreeMoves();
+        for (int p = 0; p < 3; p++) {
+            wishAll(x, p, p == 1 ? 1 : 0, p == 1 ? 0 : 1);
+        }
+        due("change()", x.change(), 1);
+        planIs("the one that likes 1 more", x, 0, 1, 0);
+    }
+
+    void p20_ofSeveralTheBest_byGrief() {
+        WishSharer x = whereOneOfThreeMoves();
+        for (int p = 0; p < 3; p++) {
+            wishAll(x, p, 0, 1);
+        }
+        putAll(x, 0, 1, 0);
+        due("book()", x.book(), 1);
+        putAll(x, 0, 0, 1);
+        due("book()", x.book(), 1);
+        putEach(x, 3, 0);
+        due("change()", x.change(), 1);
+        planIs("the one without SCORE", x, 1, 0, 0);
+    }
+
+    void p20_ofSeveralTheBest_byFriends() {
+        WishSharer x = whereOneOfThreeMoves();
+        x.friends(0, 2, true);
+        due("change()", x.change(), 1);
+        planIs("the one without a FRIEND", x, 0, 1, 0);
+    }
+
+    void p20_ofSeveralTheBest_byLots() {
+        WishSharer x = whereOneOfThreeMoves();
+        due("change()", x.change(), 1);
+        planIs("the last one", x, 0, 0, 1);
+        putEach(x, 3, 0);
+        x.lots(0);
+        int last = x.of(0, 6) == 2 ? 0 : x.of(1, 6) == 2 ? 1 : 2;
+        due("change()", x.change(), 1);
+        due("the last one by LOTS, " + last, x.of(last, 4), 1);
+        due("one alone", x.of(0, 4) + x.of(1, 4) + x.of(2, 4), 1);
+    }
+
+    void p20_howManyMoved_1To8() {
+        for (int many = 1; many <= 8; many++) {
+            WishSharer x = withPupils(8);
+            x.project(0, 1, 8, 0, 0);
+            x.project(0, 1, 8, 0, 0);
+            for (int p = 0; p < 8; p++) {
+                x.put(p, p < many ? 0 : 1);
+            }
+            x.offered(0, false);
+            due("change()", x.change(), many);
+        }
+    }
+
     void p20_noneRight_itStays() {
         WishSharer x = with(3, 2, 1);
         putAll(x, 0, 0, NONE);
@@ -692,7 +956,7 @@ final class EdgesOfPlans extends Bench {
     }
 
     void p20_none_changesNothing() {
-        changesNothing(EdgesOfPlans::withoutAnyRightPlan, WishSharer::change);
+        changesNothing(CasesOfPlans::withoutAnyRightPlan, WishSharer::change);
     }
 
     // ---- 21: lie
@@ -850,21 +1114,21 @@ final class EdgesOfPlans extends Bench {
 
     void p21_theFirstRowOfAllPays() {
         WishSharer x = whereTheFirstRowPays();
-        due("told in earnest", firstThatPays(EdgesOfPlans::whereTheFirstRowPays, 1), 1234);
+        due("told in earnest", firstThatPays(CasesOfPlans::whereTheFirstRowPays, 1), 1234);
         due("lie(1)", x.lie(1), 1);
         rowIs("the first of 120", x, 0, 1, 2, 3, 4);
     }
 
     void p21_theLastRowOfAllPays() {
         WishSharer x = whereTheLastRowPays();
-        due("told in earnest", firstThatPays(EdgesOfPlans::whereTheLastRowPays, 2), 43210);
+        due("told in earnest", firstThatPays(CasesOfPlans::whereTheLastRowPays, 2), 43210);
         due("lie(2)", x.lie(2), 1);
         rowIs("the last of 120", x, 4, 3, 2, 1, 0);
     }
 
     void p21_noRowPays() {
         WishSharer x = whereTheLastRowPays();
-        due("told in earnest", firstThatPays(EdgesOfPlans::whereTheLastRowPays, 0), 0);
+        due("told in earnest", firstThatPays(CasesOfPlans::whereTheLastRowPays, 0), 0);
         due("lie(0)", x.lie(0), 0);
     }
 
@@ -899,6 +1163,6 @@ final class EdgesOfPlans extends Bench {
     }
 
     void p21_noPlan_changesNothing() {
-        changesNothing(EdgesOfPlans::withoutAnyRightPlan, x -> due("lie(0)", x.lie(0), -2));
+        changesNothing(CasesOfPlans::withoutAnyRightPlan, x -> due("lie(0)", x.lie(0), -2));
     }
 }

@@ -1,6 +1,13 @@
+import java.util.Arrays;
+
 /** Cases of promises 1 to 13, who and what: a case a sentence, told by its name. */
-final class EdgesOfWho extends Bench {
-    EdgesOfWho(Checks checks) {
+final class CasesOfWho extends Bench {
+    private static final int[] BEGINNINGS =
+        {-1, 0, 1, 2, 3, 4, 5, 255, 256, 257, -252, MOST_INT, LEAST_INT, LEAST_INT + 2};
+    private static final int[] STEPS =
+        {-5, -3, -2, -1, 0, 1, 2, 3, 4, 5, 255, 256, 257, -255, MOST_INT, LEAST_INT, LEAST_INT + 1};
+
+    CasesOfWho(Checks checks) {
         super(checks);
     }
 
@@ -42,6 +49,15 @@ final class EdgesOfWho extends Bench {
     }
 
     // ---- 2: pupil
+
+    void p02_itsNumber_refusedOnesTakeNone() {
+        WishSharer x = new WishSharer();
+        due("the first", x.pupil(3), 0);
+        due("refused", x.pupil(256), NONE);
+        due("the second", x.pupil(4), 1);
+        due("of(0, 0)", x.of(0, 0), 3);
+        due("of(1, 0)", x.of(1, 0), 4);
+    }
 
     void p02_skills_0And255Taken() {
         WishSharer x = new WishSharer();
@@ -112,6 +128,17 @@ final class EdgesOfWho extends Bench {
 
     private static WishSharer withOnePupil() {
         return withPupils(1);
+    }
+
+    void p03_itsNumber_refusedOnesTakeNone() {
+        WishSharer x = withOnePupil();
+        due("the first", x.project(0, 1, 1, 0, 0), 0);
+        due("refused", x.project(0, 2, 1, 0, 0), NONE);
+        due("the second", x.project(0, 2, 2, 0, 0), 1);
+        x.put(0, 0);
+        due("one in the first", x.wrong(), 0);
+        x.put(0, 1);
+        due("one in the second", x.wrong(), 41);
     }
 
     void p03_kind_0To3Taken() {
@@ -260,6 +287,19 @@ final class EdgesOfWho extends Bench {
 
     // ---- 4: wish
 
+    void p04_behindTheOthers_howMany() {
+        WishSharer x = with(2, 4, 1);
+        due("wish(0, 2)", x.wish(0, 2), 1);
+        due("wish(1, 3)", x.wish(1, 3), 1);
+        due("wish(0, 0)", x.wish(0, 0), 2);
+        due("wish(0, 3)", x.wish(0, 3), 3);
+        wishesAre("0", x, 0, 2, 0, 3);
+        wishesAre("1", x, 1, 3);
+        x.wishes(1, 1, 2, 1, 1);
+        due("behind those of a sheet", x.wish(1, 0), 3);
+        wishesAre("1", x, 1, 1, 2, 0);
+    }
+
     void p04_pupil_firstAndLastTaken() {
         WishSharer x = with(8, 1, 1);
         due("wish(0, 0)", x.wish(0, 0), 1);
@@ -332,6 +372,52 @@ final class EdgesOfWho extends Bench {
     }
 
     // ---- 5: wishes
+
+    /** The entries of a sheet in longs, cut to their bits by arithmetic. */
+    private static int[] rowOf(int kind, int n, int f, int step, int projects) {
+        int[] row = new int[projects];
+        int length = 0;
+        for (int i = 0; i < n; i++) {
+            long bits = kind == 0 ? 256 : 1L << 32;
+            long entry = Math.floorMod(f + (long) i * step, bits);
+            long project = entry >= bits / 2 ? entry - bits : entry;
+            boolean was = false;
+            for (int k = 0; k < length; k++) {
+                was |= row[k] == project;
+            }
+            if (project < 0 || project >= projects || was) {
+                break;
+            }
+            row[length++] = (int) project;
+        }
+        return Arrays.copyOf(row, length);
+    }
+
+    private void rowsAreTaken(int kind, int projects) {
+        for (int f : BEGINNINGS) {
+            for (int step : STEPS) {
+                WishSharer x = with(1, projects, 1);
+                for (int n = 0; n <= 20; n += n < 7 ? 1 : 13) {
+                    int[] row = rowOf(kind, n, f, step, projects);
+                    String what = "wishes(0, " + kind + ", " + n + ", " + f + ", " + step + ") of " + projects;
+                    due(what, x.wishes(0, kind, n, f, step), row.length);
+                    wishesAre(what, x, 0, row);
+                }
+            }
+        }
+    }
+
+    void p05_bytes_fThenAStepMoreEach() {
+        for (int projects = 0; projects <= 5; projects++) {
+            rowsAreTaken(0, projects);
+        }
+    }
+
+    void p05_ints_fThenAStepMoreEach() {
+        for (int projects = 0; projects <= 5; projects++) {
+            rowsAreTaken(1, projects);
+        }
+    }
 
     void p05_n_0Taken_noWishesThen() {
         WishSharer x = with(1, 5, 1);
@@ -852,6 +938,72 @@ final class EdgesOfWho extends Bench {
 
     // ---- 11: count
 
+    void p11_what0_pupils() {
+        WishSharer x = new WishSharer();
+        for (int p = 1; p <= 8; p++) {
+            x.pupil(0);
+            x.here(p - 1, false);
+            due("count(0)", x.count(0), p);
+        }
+        x.pupil(0);
+        due("a ninth was refused", x.count(0), 8);
+    }
+
+    void p11_what1_projects() {
+        WishSharer x = new WishSharer();
+        for (int q = 1; q <= 5; q++) {
+            x.project(0, 1, 1, 0, 0);
+            x.offered(q - 1, false);
+            due("count(1)", x.count(1), q);
+        }
+        x.project(0, 1, 1, 0, 0);
+        due("a sixth was refused", x.count(1), 5);
+    }
+
+    void p11_what2_pupilsThatAreHere() {
+        WishSharer x = withPupils(3);
+        due("all", x.count(2), 3);
+        x.here(1, false);
+        due("all but one", x.count(2), 2);
+        x.pupil(0);
+        due("one more came", x.count(2), 3);
+        x.here(1, true);
+        due("it came back", x.count(2), 4);
+    }
+
+    void p11_what3_theYear() {
+        WishSharer x = new WishSharer();
+        for (int y = 0; y < 3; y++) {
+            due("count(3)", x.count(3), y);
+            x.book();
+        }
+        x.undo();
+        due("one taken back", x.count(3), 2);
+    }
+
+    void p11_what4_numbersOfTheRow() {
+        WishSharer x = whereARowOfFivePays();
+        due("none yet", x.count(4), 0);
+        x.lie(1);
+        due("five of lie", x.count(4), 5);
+        x.wishes(0, 1, 1, 1, 0);
+        x.wishes(1, 1, 1, 0, 0);
+        putAll(x, 0, 1);
+        x.swap();
+        due("two of swap", x.count(4), 2);
+    }
+
+    void p11_what5_projectsOffered() {
+        WishSharer x = with(0, 3, 1);
+        due("all", x.count(5), 3);
+        x.offered(1, false);
+        due("all but one", x.count(5), 2);
+        x.project(0, 1, 1, 0, 0);
+        due("one more", x.count(5), 3);
+        x.offered(1, true);
+        due("all again", x.count(5), 4);
+    }
+
     void p11_what_0And5Taken_minus1And6Refused() {
         WishSharer x = with(2, 3, 1);
         due("0", x.count(0), 2);
@@ -892,6 +1044,47 @@ final class EdgesOfWho extends Bench {
     }
 
     // ---- 12: of
+
+    void p12_what0_skills() {
+        for (int skills = 0; skills <= 255; skills++) {
+            WishSharer x = new WishSharer();
+            x.pupil(skills);
+            due("of(0, 0)", x.of(0, 0), skills);
+        }
+    }
+
+    void p12_what1_here1_else0() {
+        WishSharer x = withPupils(2);
+        due("at first", x.of(1, 1), 1);
+        x.here(1, false);
+        due("away", x.of(1, 1), 0);
+        due("the other", x.of(0, 1), 1);
+        x.here(1, true);
+        due("back", x.of(1, 1), 1);
+    }
+
+    void p12_what4_itsProjectByThePlan() {
+        WishSharer x = with(3, 5, 1);
+        due("at first", x.of(0, 4), NONE);
+        putAll(x, 4, 0, 2);
+        due("of(0, 4)", x.of(0, 4), 4);
+        due("of(1, 4)", x.of(1, 4), 0);
+        due("of(2, 4)", x.of(2, 4), 2);
+        x.best();
+        due("best by LOTS", x.of(0, 4), 0);
+        x.book();
+        due("booked", x.of(0, 4), NONE);
+    }
+
+    void p12_what6_itsPlaceByLots_from0On() {
+        WishSharer x = withPupils(4);
+        for (int seed = 0; seed < 20; seed++) {
+            x.lots(seed);
+            lotsAre("seed " + seed, x, orderBy(seed, 4));
+        }
+        due("one more", x.pupil(0), 4);
+        due("of(4, 6)", x.of(4, 6), 4);
+    }
 
     void p12_pupil_firstAndLastTaken() {
         WishSharer x = new WishSharer();
@@ -987,6 +1180,16 @@ final class EdgesOfWho extends Bench {
     }
 
     // ---- 13: rank
+
+    void p13_ofEachProject() {
+        WishSharer x = with(2, 5, 1);
+        wishAll(x, 0, 4, 2, 0);
+        int[] ranks = {3, 6, 2, 6, 1};
+        for (int q = 0; q < 5; q++) {
+            due("rank(0, " + q + ")", x.rank(0, q), ranks[q]);
+            due("rank(1, " + q + ")", x.rank(1, q), 6);
+        }
+    }
 
     void p13_firstAndLastTaken() {
         WishSharer x = with(8, 5, 1);

@@ -1,6 +1,6 @@
 /** Cases of promises 22 to 25, years: a case a sentence, told by its name. */
-final class EdgesOfYears extends Bench {
-    EdgesOfYears(Checks checks) {
+final class CasesOfYears extends Bench {
+    CasesOfYears(Checks checks) {
         super(checks);
     }
 
@@ -76,7 +76,7 @@ final class EdgesOfYears extends Bench {
     }
 
     void p22_notRight_changesNothing() {
-        changesNothing(EdgesOfYears::withoutRightPlan, x -> due("book()", x.book(), 0));
+        changesNothing(CasesOfYears::withoutRightPlan, x -> due("book()", x.book(), 0));
     }
 
     private static WishSharer withoutRightPlan() {
@@ -108,6 +108,15 @@ final class EdgesOfYears extends Bench {
         putEach(x, 8, 0);
         due("book()", x.book(), 1);
         planIs("none", x, NONE, NONE, NONE, NONE, NONE, NONE, NONE, NONE);
+    }
+
+    void p22_theNextYear() {
+        WishSharer x = withYears(2);
+        due("count(3)", x.count(3), 2);
+        x.put(0, 0);
+        due("book()", x.book(), 1);
+        due("count(3)", x.count(3), 3);
+        due("year(2, 0)", x.year(2, 0), 6);
     }
 
     void p22_theRowStays() {
@@ -227,7 +236,7 @@ final class EdgesOfYears extends Bench {
     }
 
     void p24_noYearLeft_changesNothing() {
-        changesNothing(EdgesOfYears::withYearTakenBack, x -> due("undo()", x.undo(), NONE));
+        changesNothing(CasesOfYears::withYearTakenBack, x -> due("undo()", x.undo(), NONE));
     }
 
     private static WishSharer withYearTakenBack() {
