@@ -1,3 +1,6 @@
+import java.util.ArrayList;
+import java.util.Arrays;
+import java.util.List;
 import java.util.Random;
 import java.util.function.Supplier;
 
@@ -796,6 +799,23 @@ final class CasesOfPlans extends Bench {
         planIs("THE PLAN is as it was", x, 0, 1);
     }
 
+    void p19_theyAreTheRow() {
+        for (int a = 0; a < 8; a++) {
+            for (int b = a + 1; b < 8; b++) {
+                WishSharer x = with(8, 2, 1);
+                for (int p = 0; p < 8; p++) {
+                    x.here(p, p == a || p == b);
+                }
+                x.put(a, 0);
+                x.put(b, 1);
+                x.wish(a, 1);
+                x.wish(b, 0);
+                due("swap()", x.swap(), 1);
+                rowIs("swap()", x, a, b);
+            }
+        }
+    }
+
     void p19_none_theRowStays() {
         WishSharer x = crossed(2);
         x.swap();
@@ -858,6 +878,33 @@ final class CasesOfPlans extends Bench {
         }
         due("change()", x.change(), 1);
         planIs("the one that wished to", x, 1, 1, 1, 1, 1, 0, 1, 1);
+    }
+
+    void p20_fewestMoves_beforeEightOfRank6() {
+        WishSharer x = withPupils(8);
+        for (int q = 0; q < 3; q++) {
+            x.project(0, 8, 8, 0, 0);
+        }
+        x.offered(2, false);
+        // Four move to have all of RANK 6 in 0, five to have all of RANK 1 in 1.
+        for (int p = 0; p < 8; p++) {
+            x.wish(p, 1);
+            x.put(p, p < 4 ? 0 : p < 7 ? 1 : 2);
+        }
+        due("change()", x.change(), 4);
+        planIs("all in 0", x, 0, 0, 0, 0, 0, 0, 0, 0);
+    }
+
+    void p20_noMove_fromAnyProjectToABetterOne() {
+        for (int had = 0; had < 5; had++) {
+            for (int liked = 0; liked < 5; liked++) {
+                WishSharer x = with(1, 5, 1);
+                x.wish(0, liked);
+                x.put(0, had);
+                due("had " + had + ", likes " + liked + ", change()", x.change(), 0);
+                planIs("had " + had + ", likes " + liked, x, had);
+            }
+        }
     }
 
     void p20_whoHadNone_doNotCount() {
@@ -1094,42 +1141,125 @@ final class CasesOfPlans extends Bench {
         return x;
     }
 
-    /** Tells the rows of five in earnest, in their order, up to the first by which best() gives less RANK; else 0. */
-    private static int firstThatPays(Supplier<WishSharer> begin, int pupil) {
+    /** All rows of so many PROJECTS, by the first one that is not alike, the less number. */
+    private static List<int[]> allRows(int projects) {
+        List<int[]> rows = new ArrayList<>();
+        addRows(rows, new int[projects], 0);
+        return rows;
+    }
+
+    private static void addRows(List<int[]> rows, int[] row, int place) {
+        if (place == row.length) {
+            rows.add(row.clone());
+            return;
+        }
+        for (int q = 0; q < row.length; q++) {
+            boolean was = false;
+            for (int i = 0; i < place; i++) {
+                was |= row[i] == q;
+            }
+            if (!was) {
+                row[place] = q;
+                addRows(rows, row, place + 1);
+            }
+        }
+    }
+
+    /** Tells all rows in earnest, in their order, up to the first by which best() gives less RANK; else an empty one. */
+    private static int[] firstThatPays(Supplier<WishSharer> begin, int pupil) {
         WishSharer honest = begin.get();
         honest.best();
         int rank = honest.of(pupil, 5);
-        for (int digits = 1234; digits <= 43210; digits++) {
+        for (int[] row : allRows(honest.count(1))) {
             WishSharer x = begin.get();
             x.wishes(pupil, 2, 0, 0, 0);
-            for (int part = 10000; part > 0; part /= 10) {
-                x.wish(pupil, digits / part % 10);
-            }
-            if (x.of(pupil, 2) == 5 && x.best() == 1 && honest.rank(pupil, x.of(pupil, 4)) < rank) {
-                return digits;
+            wishAll(x, pupil, row);
+            if (x.best() == 1 && honest.rank(pupil, x.of(pupil, 4)) < rank) {
+                return row;
             }
         }
-        return 0;
+        return new int[0];
+    }
+
+    private void toldInEarnestPays(Supplier<WishSharer> begin, int pupil, int... row) {
+        int[] first = firstThatPays(begin, pupil);
+        yes("told in earnest, " + Arrays.toString(first), Arrays.equals(first, row));
     }
 
     void p21_theFirstRowOfAllPays() {
         WishSharer x = whereTheFirstRowPays();
-        due("told in earnest", firstThatPays(CasesOfPlans::whereTheFirstRowPays, 1), 1234);
+        toldInEarnestPays(CasesOfPlans::whereTheFirstRowPays, 1, 0, 1, 2, 3, 4);
         due("lie(1)", x.lie(1), 1);
         rowIs("the first of 120", x, 0, 1, 2, 3, 4);
     }
 
     void p21_theLastRowOfAllPays() {
         WishSharer x = whereTheLastRowPays();
-        due("told in earnest", firstThatPays(CasesOfPlans::whereTheLastRowPays, 2), 43210);
+        toldInEarnestPays(CasesOfPlans::whereTheLastRowPays, 2, 4, 3, 2, 1, 0);
         due("lie(2)", x.lie(2), 1);
         rowIs("the last of 120", x, 4, 3, 2, 1, 0);
     }
 
     void p21_noRowPays() {
         WishSharer x = whereTheLastRowPays();
-        due("told in earnest", firstThatPays(CasesOfPlans::whereTheLastRowPays, 0), 0);
+        toldInEarnestPays(CasesOfPlans::whereTheLastRowPays, 0);
         due("lie(0)", x.lie(0), 0);
+    }
+
+    /** Five PUPILS, one perhaps not HERE, and three to five PROJECTS, told by a number. */
+    private static WishSharer whereSomeLiesPay(int seed) {
+        Random random = new Random(seed);
+        WishSharer x = withPupils(5);
+        int projects = 3 + random.nextInt(3);
+        for (int q = 0; q < projects; q++) {
+            x.project(random.nextInt(3), 1, 1 + random.nextInt(2), 0, 0);
+        }
+        for (int p = 0; p < 5; p++) {
+            for (int i = 0; i < 4; i++) {
+                x.wish(p, random.nextInt(projects));
+            }
+        }
+        x.friends(0, 1, true);
+        x.here(4, seed % 4 != 0);
+        x.lots(seed);
+        return x;
+    }
+
+    void p21_rowsInTheirOrder_manyByChance() {
+        int paid = 0;
+        for (int seed = 0; seed < 200; seed++) {
+            int told = seed;
+            int pupil = seed % 3;
+            int[] row = firstThatPays(() -> whereSomeLiesPay(told), pupil);
+            WishSharer x = whereSomeLiesPay(seed);
+            int due = row.length > 0 ? 1 : x.plans(0) > 0 ? 0 : -2;
+            due("number " + seed + ", lie(" + pupil + ")", x.lie(pupil), due);
+            rowIs("number " + seed, x, row);
+            paid += row.length > 0 ? 1 : 0;
+        }
+        yes("some pay, some do not: " + paid, paid >= 10 && paid <= 190);
+    }
+
+    void p21_lessRankByItsOwnWishes_notByTheRowTold() {
+        WishSharer x = with(2, 3, 1);
+        wishAll(x, 0, 0, 1);
+        wishAll(x, 1, 0, 1);
+        // Told first, 1 and 2 are its, but by its own WISHES of RANK 2 and 6; that is what it has, or more.
+        due("lie(1)", x.lie(1), 0);
+    }
+
+    void p21_itIsTheRow_ofThreeToFive() {
+        int[] row = {0, 2, 1, 3, 4};
+        for (int projects = 3; projects <= 5; projects++) {
+            WishSharer x = with(2, projects, 1);
+            wishAll(x, 0, 0, 1);
+            wishAll(x, 1, 0, 1);
+            for (int q = 2; q < projects; q++) {
+                x.offered(q, false);
+            }
+            due(projects + " PROJECTS, lie(1)", x.lie(1), 1);
+            rowIs(projects + " PROJECTS", x, Arrays.copyOf(row, projects));
+        }
     }
 
     void p21_rowHasThoseNotOfferedToo() {

@@ -909,6 +909,13 @@ final class CasesOfWho extends Bench {
         lotsAre("seed -1", x, 0, 1);
     }
 
+    void p10_ofThreeByHand() {
+        WishSharer x = withPupils(3);
+        yes("lots(0)", x.lots(0));
+        // R = 12345, its upper half is 0: places 2 and 0. R = 3554416254, its upper half is 54236, even: places 1 and 0.
+        lotsAre("seed 0", x, 1, 2, 0);
+    }
+
     void p10_eachNumberOfPupils_anySeed_intsGoRound() {
         int[] seeds = {0, 1, 2, -1, -2, 7, 12345, 65536, -65536, MOST_INT, MOST_INT - 1, LEAST_INT, LEAST_INT + 1};
         for (int pupils = 1; pupils <= 8; pupils++) {

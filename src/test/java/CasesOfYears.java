@@ -14,6 +14,25 @@ final class CasesOfYears extends Bench {
         return x;
     }
 
+    /** Eight PUPILS who all have WISHES 0 .. 4, in years in which each had another PROJECT than the year before. */
+    private static WishSharer whereAllGoRound(int years) {
+        WishSharer x = with(8, 5, 8);
+        for (int p = 0; p < 8; p++) {
+            x.wishes(p, 1, 5, 0, 1);
+        }
+        for (int y = 0; y < years; y++) {
+            for (int p = 0; p < 8; p++) {
+                x.put(p, projectThen(y, p));
+            }
+            x.book();
+        }
+        return x;
+    }
+
+    private static int projectThen(int year, int pupil) {
+        return (year + pupil * 2) % 5;
+    }
+
     // ---- 22: book
 
     void p22_ofNothing_isRight() {
@@ -108,6 +127,19 @@ final class CasesOfYears extends Bench {
         putEach(x, 8, 0);
         due("book()", x.book(), 1);
         planIs("none", x, NONE, NONE, NONE, NONE, NONE, NONE, NONE, NONE);
+    }
+
+    void p22_byThePlanOfNow_whichNeedNotBeTheBest() {
+        WishSharer x = with(2, 2, 1);
+        wishAll(x, 0, 0, 1);
+        wishAll(x, 1, 1, 0);
+        putAll(x, 1, 0);
+        due("one is better", x.plans(1), 1);
+        due("book()", x.book(), 1);
+        due("year(0, 0)", x.year(0, 0), 2);
+        due("year(0, 1)", x.year(0, 1), 2);
+        due("of(0, 3)", x.of(0, 3), 1);
+        due("of(1, 3)", x.of(1, 3), 1);
     }
 
     void p22_theNextYear() {
@@ -206,6 +238,15 @@ final class CasesOfYears extends Bench {
         }
     }
 
+    void p23_eachYearAndPupilForItself() {
+        WishSharer x = whereAllGoRound(20);
+        for (int y = 0; y < 20; y++) {
+            for (int p = 0; p < 8; p++) {
+                due("year(" + y + ", " + p + ")", x.year(y, p), projectThen(y, p) + 1);
+            }
+        }
+    }
+
     void p23_hereThenNotHereNow() {
         WishSharer x = withYears(1);
         x.here(0, false);
@@ -288,6 +329,16 @@ final class CasesOfYears extends Bench {
         planIs("of then", x, 1, NONE, 0);
         due("HERE as now", x.of(1, 1), 1);
         due("wrong()", x.wrong(), 11);
+    }
+
+    void p24_plan_eachYearAndPupilForItself() {
+        WishSharer x = whereAllGoRound(20);
+        for (int y = 19; y >= 0; y--) {
+            due("undo()", x.undo(), y);
+            for (int p = 0; p < 8; p++) {
+                due("year " + y + " of(" + p + ", 4)", x.of(p, 4), projectThen(y, p));
+            }
+        }
     }
 
     void p24_plan_whoCameLaterHasNone() {

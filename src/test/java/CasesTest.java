@@ -31,9 +31,13 @@ public final class CasesTest {
         checks.end();
     }
 
+    static boolean isCase(Method method) {
+        return method.getName().matches("(p\\d\\d|w|f|t1|t2)_.*");
+    }
+
     private static Method[] casesOf(Bench bench) {
         return Arrays.stream(bench.getClass().getDeclaredMethods())
-            .filter(method -> method.getName().matches("(p\\d\\d|w|f|t1|t2)_.*"))
+            .filter(CasesTest::isCase)
             .sorted(Comparator.comparing(Method::getName))
             .toArray(Method[]::new);
     }
